@@ -337,7 +337,7 @@ public final class Galleyforge {
 
     public int costAnew(int variant) throws IndexOutOfBoundsException {
         checkVariant(variant);
-        layouts[variant].stale = true;
+        layouts[variant].forget();
         return layoutOf(variant).pages.costs;
     }
 
@@ -498,11 +498,12 @@ public final class Galleyforge {
         return table;
     }
 
+    /** The lines and pages of a variant, with all rounds made. */
     private Layout layoutOf(int variant) {
         checkVariant(variant);
         Layout layout = layouts[variant];
-        if (layout.stale) {
-            layout.makeRounds();
+        for (int k = 0; k <= MOST_ROUNDS && layout.goesOn; k++) {
+            layout.makeRound();
         }
         return layout;
     }
@@ -526,7 +527,7 @@ public final class Galleyforge {
 
     private void forgetLayouts() {
         for (int variant = 0; variant < VARIANTS; variant++) {
-            layouts[variant].stale = true;
+            layouts[variant].forget();
         }
     }
 
@@ -724,10 +725,6 @@ public final class Galleyforge {
         boolean isNumbered() {
             return kind == PARAGRAPH && styles[NUMBERED] == 1;
         }
-
-        boolean isKeptTogether() {
-            return kind == COLUMNS || styles[KEEP] == 1;
-        }
     }
 
     /** The cells of a table; one with the span 0 is not told. */
@@ -737,6 +734,8 @@ public final class Galleyforge {
         final int[] bests = new int[TABLE_ROWS * TABLE_COLUMNS];
         final int[] leastWidths = new int[TABLE_COLUMNS];
         final int[] bestWidths = new int[TABLE_COLUMNS];
+        /** What the best widths of the columns are above their least ones. */
+        final int[] wishes = new int[TABLE_COLUMNS];
         final int[] widths = new int[TABLE_COLUMNS];
 
         void tell(int row, int column, int span, int least, int best) {
@@ -806,34 +805,30 @@ public final class Galleyforge {
         private void fit(int paperWidth) {
             int least = 0;
             int best = 0;
-            int wishes = 0;
+            int allWishes = 0;
             for (int column = 0; column < TABLE_COLUMNS; column++) {
                 least += leastWidths[column];
                 best += bestWidths[column];
-                wishes += wish(column);
+                wishes[column] = Math.max(0, bestWidths[column] - leastWidths[column]);
+                allWishes += wishes[column];
             }
             if (best <= paperWidth) {
                 System.arraycopy(bestWidths, 0, widths, 0, TABLE_COLUMNS);
             } else {
                 System.arraycopy(leastWidths, 0, widths, 0, TABLE_COLUMNS);
                 if (least < paperWidth) {
-                    shareByWishes(paperWidth - least, wishes);
+                    shareByWishes(paperWidth - least, allWishes);
                 }
             }
         }
 
-        /** What the best width of a column is above its least one. */
-        private int wish(int column) {
-            return Math.max(0, bestWidths[column] - leastWidths[column]);
-        }
-
-        private void shareByWishes(int extra, int wishes) {
-            if (wishes <= 0) {
+        private void shareByWishes(int extra, int allWishes) {
+            if (allWishes <= 0) {
                 return;
             }
             int over = extra;
             for (int column = 0; column < TABLE_COLUMNS; column++) {
-                int share = extra * wish(column) / wishes;
+                int share = extra * wishes[column] / allWishes;
                 widths[column] += share;
                 over -= share;
             }
@@ -873,7 +868,7 @@ public final class Galleyforge {
         private int depth;
         /** Of the line that was judged last. */
         int spread;
-        int tight;
+        int lineClass;
         /** The best ways from a place on, for the lines and the class of the line ahead of it. */
         private final long[] bestDemerits = new long[(MOST_PLACES + 1) * LINES_AHEAD * CLASSES_AHEAD];
         private final int[] bestLines = new int[(MOST_PLACES + 1) * LINES_AHEAD * CLASSES_AHEAD];
@@ -942,19 +937,19 @@ public final class Galleyforge {
             int lack = lineWidth - (widthTo[to] - widthTo[from] + SPACE_WIDTH * spaces + hyphen);
             if (lack >= 0 && (to == places || spaces == 0 && lack == 0)) {
                 spread = 0;
-                tight = 1;
+                lineClass = 1;
             } else if (lack >= 0 && spaces == 0) {
                 spread = 400;
-                tight = 3;
+                lineClass = 3;
             } else if (lack >= 0) {
                 spread = spaces > 0 ? Math.min(400, 100 * lack / (2 * spaces)) : 400;
-                tight = spread < 50 ? 1 : spread <= 100 ? 2 : 3;
+                lineClass = spread < 50 ? 1 : spread <= 100 ? 2 : 3;
             } else if (spaces > 0 && -lack <= spaces) {
                 spread = 100 * -lack / spaces;
-                tight = spread < 50 ? 1 : 0;
+                lineClass = spread < 50 ? 1 : 0;
             } else {
                 spread = 400;
-                tight = 0;
+                lineClass = 0;
                 return to == from + 1;
             }
             return true;
@@ -966,8 +961,8 @@ public final class Galleyforge {
             return sum * sum;
         }
 
-        /** The demerits of a line with this class for the line ahead of it. */
-        private int demeritsForAhead(int from, int to, int lineClass, int ahead) {
+        /** The demerits of the line that was judged last for the class of the line ahead of it, and for both their gaps. */
+        private int demeritsForAhead(int from, int to, int ahead) {
             if (ahead == NO_LINE_AHEAD) {
                 return 0;
             }
@@ -1019,10 +1014,10 @@ public final class Galleyforge {
         /** Ends are tried from the least one on, so that of equal ways the first one stays. */
         private void tryLine(int from, int to, int linesAhead) {
             long own = ownDemerits(to);
-            int behind = wayIndex(to, Math.min(linesAhead + 1, depth), tight);
+            int behind = wayIndex(to, Math.min(linesAhead + 1, depth), lineClass);
             for (int ahead = 0; ahead < CLASSES_AHEAD; ahead++) {
                 int way = wayIndex(from, linesAhead, ahead);
-                long sum = own + demeritsForAhead(from, to, tight, ahead) + bestDemerits[behind];
+                long sum = own + demeritsForAhead(from, to, ahead) + bestDemerits[behind];
                 int count = bestLines[behind] + 1;
                 if (bestDemerits[way] == NONE || sum < bestDemerits[way]
                         || sum == bestDemerits[way] && count < bestLines[way]) {
@@ -1071,8 +1066,8 @@ public final class Galleyforge {
                 if (!judge(from, to, widthOf(line))) {
                     return NONE;
                 }
-                sum += ownDemerits(to) + demeritsForAhead(from, to, tight, ahead);
-                ahead = tight;
+                sum += ownDemerits(to) + demeritsForAhead(from, to, ahead);
+                ahead = lineClass;
                 from = to;
                 line++;
             }
@@ -1109,8 +1104,11 @@ public final class Galleyforge {
             for (int place = 0; place < text.blocks.size(); place++) {
                 Block block = text.blocks.get(place);
                 firstRows[place] = count;
+                if (block.table != null) {
+                    block.table.measure(text.width);
+                }
                 if (block.isThere(variant)) {
-                    addRowsOf(text, block, place, lineCounts[place]);
+                    addRowsOf(block, place, lineCounts[place]);
                 }
                 rowCounts[place] = count - firstRows[place];
             }
@@ -1150,7 +1148,7 @@ public final class Galleyforge {
             }
         }
 
-        private void addRowsOf(Text text, Block block, int place, int lineCount) {
+        private void addRowsOf(Block block, int place, int lineCount) {
             switch (block.kind) {
                 case PARAGRAPH:
                     addRows(place, lineCount, 1);
@@ -1173,7 +1171,7 @@ public final class Galleyforge {
                     addRows(place, terms, 1);
                     break;
                 default:
-                    addTableRows(text, block.table, place);
+                    addTableRows(block.table, place);
                     break;
             }
         }
@@ -1182,12 +1180,8 @@ public final class Galleyforge {
             return (lineCount + 1) / 2;
         }
 
-        private void addTableRows(Text text, Table table, int place) {
-            if (table == null) {
-                return;
-            }
-            table.measure(text.width);
-            for (int row = 0; row < table.rowCount(); row++) {
+        private void addTableRows(Table table, int place) {
+            for (int row = 0; table != null && row < table.rowCount(); row++) {
                 addRow(place, row, table.heightOf(row));
             }
         }
@@ -1402,7 +1396,8 @@ public final class Galleyforge {
             int place = rows.blocks[last];
             Block block = text.blocks.get(place);
             boolean same = rows.blocks[last + 1] == place;
-            if (block.kind == HEADING || same && block.isKeptTogether()) {
+            boolean kept = block.kind == COLUMNS || block.styles[KEEP] == 1;
+            if (block.kind == HEADING || same && kept) {
                 return 10000;
             }
             if (!same) {
@@ -1427,39 +1422,42 @@ public final class Galleyforge {
         int[] costs = new int[FIRST_STATES];
         int[] pages = new int[FIRST_STATES];
         int[] rows = new int[FIRST_STATES];
-        private int count;
+        int count;
 
         void clear() {
             Arrays.fill(firsts, NONE);
             count = 0;
         }
 
-        /** The state; a new one, if there was none like it. Room for one more must have been made. */
+        /** The state like this; if it was not kept, since there were too many, another one of the row. */
         int find(int row, int wait, int left) {
             int state = firsts[row];
-            for (; state != NONE; state = nexts[state]) {
+            for (int k = 0; k < count && state != NONE; k++) {
                 if (waits[state] == wait && lefts[state] == left) {
                     return state;
                 }
+                state = nexts[state];
             }
-            if (count >= MOST_STATES && firsts[row] != NONE) {
-                return firsts[row];
-            }
-            return add(row, wait, left);
+            return firsts[row];
         }
 
-        private int add(int row, int wait, int left) {
-            int state = Math.min(count, nexts.length - 1);
-            nexts[state] = firsts[row];
-            firsts[row] = state;
-            waits[state] = wait;
-            lefts[state] = left;
-            rows[state] = 0;
-            count = state + 1;
-            return state;
+        /** Adds the state like this, if there is none yet. */
+        void reach(int row, int wait, int left) {
+            int found = find(row, wait, left);
+            boolean isThere = found != NONE && waits[found] == wait && lefts[found] == left;
+            if (isThere || found != NONE && count >= MOST_STATES) {
+                return;
+            }
+            makeRoom();
+            nexts[count] = firsts[row];
+            firsts[row] = count;
+            waits[count] = wait;
+            lefts[count] = left;
+            rows[count] = 0;
+            count++;
         }
 
-        void makeRoom() {
+        private void makeRoom() {
             if (count < nexts.length) {
                 return;
             }
@@ -1507,18 +1505,21 @@ public final class Galleyforge {
                 return;
             }
             states.clear();
-            int start = states.find(0, 0, 0);
+            states.reach(0, 0, 0);
             for (int row = 0; row < rows.count; row++) {
-                for (int state = states.firsts[row]; state != NONE; state = states.nexts[state]) {
+                int state = states.firsts[row];
+                for (int k = 0; k < states.count && state != NONE; k++) {
                     reachFrom(row, state);
+                    state = states.nexts[state];
                 }
             }
             for (int row = rows.count - 1; row >= 0; row--) {
-                for (int state = states.firsts[row]; state != NONE; state = states.nexts[state]) {
+                int state = states.firsts[row];
+                for (int k = 0; k < states.count && state != NONE; k++) {
                     choose(row, state);
+                    state = states.nexts[state];
                 }
             }
-            costs = states.costs[start];
             layOut();
         }
 
@@ -1531,8 +1532,7 @@ public final class Galleyforge {
                 }
                 if (page.mayEnd() && row + n < rows.count) {
                     page.close();
-                    states.makeRoom();
-                    states.find(row + n, withoutAlone(page.waitNext), page.leftNext);
+                    states.reach(row + n, withoutAlone(page.waitNext), page.leftNext);
                 }
             }
         }
@@ -1557,6 +1557,9 @@ public final class Galleyforge {
             if (nextRow < rows.count) {
                 int wait = withoutAlone(page.waitNext);
                 int next = states.find(nextRow, wait, page.leftNext);
+                if (next == NONE) {
+                    return;
+                }
                 sum += states.costs[next];
                 pages += Integer.bitCount(page.waitNext ^ wait) + states.pages[next];
             } else {
@@ -1618,12 +1621,14 @@ public final class Galleyforge {
             int wait = 0;
             int left = 0;
             for (int k = 0; k < MOST_ROWS && row < rows.count; k++) {
-                int n = states.rows[states.find(row, wait, left)];
+                int state = states.find(row, wait, left);
+                int n = state == NONE ? 1 : Math.max(1, states.rows[state]);
                 page.open(row, wait, left);
                 for (int added = 0; added < n; added++) {
                     page.addRow();
                 }
                 page.close();
+                costs += page.costs();
                 putPage(row, n);
                 row += n;
                 wait = page.waitNext;
@@ -1710,7 +1715,9 @@ public final class Galleyforge {
         private final Lines lines;
         final Rows rows;
         final Pages pages;
-        boolean stale;
+        /** Whether another round comes. */
+        boolean goesOn = true;
+        private boolean isLastRound;
         final int[] lineCounts = new int[MOST_BLOCKS];
         final int[] lineEnds = new int[MOST_BLOCKS * MOST_PLACES];
         final int[] lineClasses = new int[MOST_BLOCKS * MOST_PLACES];
@@ -1719,8 +1726,8 @@ public final class Galleyforge {
         private final boolean[] onPages = new boolean[MOST_PAGES + 2];
         int rounds;
         boolean settled;
-        /** The digits of all labels with which the last round was made, and all rounds. */
-        private int digits;
+        /** The digits of all labels with which the last round was made or the next one is, and those of all rounds. */
+        private int digits = ONE_DIGIT_EACH;
         private final int[] digitsOfRounds = new int[MOST_ROUNDS];
 
         Layout(Text text, int variant, Lines lines, States states) {
@@ -1729,39 +1736,42 @@ public final class Galleyforge {
             this.lines = lines;
             rows = new Rows();
             pages = new Pages(text, rows, states);
-            stale = true;
         }
 
-        /** Makes rounds until nothing moves, or until digits come again. */
-        void makeRounds() {
-            stale = false;
+        /** Lets the rounds begin anew. */
+        void forget() {
+            goesOn = true;
+            isLastRound = false;
+            settled = false;
             rounds = 0;
             digits = ONE_DIGIT_EACH;
-            for (int k = 0; k < MOST_ROUNDS; k++) {
-                digitsOfRounds[k] = digits;
-                makeRound();
-                int given = digitsOfPages();
-                settled = given == digits;
-                if (settled) {
-                    return;
-                }
-                int again = roundWith(given);
-                if (again != NONE) {
-                    digits = mostDigitsFrom(again);
-                    makeRound();
-                    return;
-                }
-                digits = given;
-            }
         }
 
-        private void makeRound() {
+        /** Makes the next round, and finds whether another one comes behind it. */
+        void makeRound() {
             for (int place = 0; place < text.blocks.size(); place++) {
                 breakBlock(place);
             }
             rows.make(text, variant, lineCounts, wordLines);
             pages.make();
+            if (rounds < MOST_ROUNDS) {
+                digitsOfRounds[rounds] = digits;
+            }
             rounds++;
+            goesOn = !isLastRound;
+            if (goesOn) {
+                compareDigits(digitsOfPages());
+            }
+        }
+
+        private void compareDigits(int given) {
+            settled = given == digits;
+            goesOn = !settled;
+            if (goesOn) {
+                int again = roundWith(given);
+                isLastRound = again != NONE;
+                digits = isLastRound ? mostDigitsFrom(again) : given;
+            }
         }
 
         private void breakBlock(int place) {
@@ -1778,9 +1788,9 @@ public final class Galleyforge {
             for (int line = 0; line < MOST_PLACES && from < lines.places; line++) {
                 int to = lines.bestEnd(from, line, ahead);
                 lineEnds[place * MOST_PLACES + line] = 10 * lines.wordAt[to] + lines.gapAt[to];
-                lineClasses[place * MOST_PLACES + line] = lines.tight;
+                lineClasses[place * MOST_PLACES + line] = lines.lineClass;
                 placeWords(place, line, from, to);
-                ahead = lines.tight;
+                ahead = lines.lineClass;
                 from = to;
                 lineCounts[place]++;
             }
