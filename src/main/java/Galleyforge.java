@@ -306,11 +306,15 @@ public final class Galleyforge {
     }
 
     public int lineEnd(int variant, int place, int line) throws IndexOutOfBoundsException {
-        return layoutOf(variant).lineEnds[lineIndex(variant, place, line)];
+        Layout layout = layoutOf(variant);
+        checkLine(layout, place, line);
+        return layout.lineEnds[place * MOST_PLACES + line];
     }
 
     public int tightness(int variant, int place, int line) throws IndexOutOfBoundsException {
-        return layoutOf(variant).lineClasses[lineIndex(variant, place, line)];
+        Layout layout = layoutOf(variant);
+        checkLine(layout, place, line);
+        return layout.lineClasses[place * MOST_PLACES + line];
     }
 
     public long demerits(int variant, int place) throws IndexOutOfBoundsException {
@@ -508,13 +512,11 @@ public final class Galleyforge {
         return layout;
     }
 
-    private int lineIndex(int variant, int place, int line) {
-        checkVariant(variant);
+    private void checkLine(Layout layout, int place, int line) {
         checkBlock(place);
-        if (line < 0 || line >= layoutOf(variant).lineCounts[place]) {
+        if (line < 0 || line >= layout.lineCounts[place]) {
             throw new IndexOutOfBoundsException("no such line");
         }
-        return place * MOST_PLACES + line;
     }
 
     private int putIn(Block block, int at, Word made) {
@@ -1546,13 +1548,14 @@ public final class Galleyforge {
                 }
                 if (page.mayEnd()) {
                     page.close();
-                    weigh(row + n, state, n);
+                    weigh(row + n, state, n, page.costs());
                 }
             }
         }
 
-        private void weigh(int nextRow, int state, int n) {
-            int sum = page.costs();
+        /** Weighs a page with n rows and these costs, and the best way behind it, against the best way so far. */
+        private void weigh(int nextRow, int state, int n, int costsOfPage) {
+            int sum = costsOfPage;
             int pages = 1;
             if (nextRow < rows.count) {
                 int wait = withoutAlone(page.waitNext);
@@ -1787,6 +1790,9 @@ public final class Galleyforge {
             int ahead = NONE;
             for (int line = 0; line < MOST_PLACES && from < lines.places; line++) {
                 int to = lines.bestEnd(from, line, ahead);
+                if (to <= from) {
+                    return;
+                }
                 lineEnds[place * MOST_PLACES + line] = 10 * lines.wordAt[to] + lines.gapAt[to];
                 lineClasses[place * MOST_PLACES + line] = lines.lineClass;
                 placeWords(place, line, from, to);

@@ -28,7 +28,7 @@ public final class RandomRunsTest {
             }
         }
         if (METHODS.size() != 39) throw new AssertionError("39 methods are due, there are " + METHODS.size());
-        long first = args.length > 0 ? Long.parseLong(args[0]) : 1;
+        long first = args.length > 0 ? Long.parseLong(args[0]) : 1500;
         long count = args.length > 1 ? Long.parseLong(args[1]) : 1500;
         int wrong = 0;
         int[] seen = new int[8];
