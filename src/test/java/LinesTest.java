@@ -8,6 +8,8 @@ public final class LinesTest {
         tooWideWords();
         hyphens();
         gapsInARow();
+        fewestLines();
+        mostPlaces();
         differingClasses();
         indents();
         sides();
@@ -110,6 +112,33 @@ public final class LinesTest {
         Check.pattern(g, "3", 0, 1);
         g.style(0, Galleyforge.INDENT, 2);
         lines("two hyphens in a row", g, 2 * sq(6460) + 2000 + 3000 + 100, 2, 3, 3, 3, 0, 1);
+    }
+
+    /** On a width of 28, three lines have the demerits 225 + 100 + 100, two of them 256 + 169. */
+    private static void fewestLines() {
+        Galleyforge g = paragraph("0", "1", "0", "1", "1", "0", "3", "3", "2", "2");
+        g.paper(34, 12);
+        g.style(0, Galleyforge.INDENT, 1);
+        lines("the fewest lines", g, 256 + 169, 50, 1, 90, 1);
+    }
+
+    /** Twelve words of six letters, each broken at 2 and 3, or at 2 and 4: of equal ways the lesser ends. */
+    private static void mostPlaces() {
+        Galleyforge g = new Galleyforge();
+        g.paper(30, 12);
+        g.block(0, Galleyforge.PARAGRAPH);
+        g.style(0, Galleyforge.INDENT, 2);
+        for (int k = 0; k < 12; k++) {
+            Check.words(g, 0, "333333");
+        }
+        Check.due("22 without patterns", g.lines(0, 0), 12);
+        Check.pattern(g, "3", 0, 1);
+        Check.due("22 with a pattern", g.lines(0, 0) > 24 ? 1 : 0, 1);
+        Check.due("23 the last line", g.lineEnd(0, 0, g.lines(0, 0) - 1), 110);
+        Check.due("23 the first line", g.lineEnd(0, 0, 0), 2);
+        Check.due("26 too many places", g.demeritsByAll(0, 0), -1);
+        Check.words(g, Check.add(g, Galleyforge.PARAGRAPH), "0");
+        Check.due("22 the next block", g.lines(0, 1), 1);
     }
 
     private static void differingClasses() {

@@ -34,7 +34,7 @@ public final class RandomRunsTest {
         int[] seen = new int[8];
         for (long seed = first; seed < first + count && wrong < 5; seed++) {
             RandomRunsTest run = new RandomRunsTest(seed);
-            String fault = run.run();
+            String fault = run.run(seed % 50 == 0);
             if (fault != null) {
                 wrong++;
                 System.out.println("seed " + seed + ": " + fault);
@@ -85,8 +85,12 @@ public final class RandomRunsTest {
         return random.nextInt(bound);
     }
 
-    private String run() throws Exception {
+    private String run(boolean full) throws Exception {
         mood = upTo(8);
+        if (full) {
+            String fault = fullText();
+            return fault == null ? checkAll() : fault;
+        }
         String fault = null;
         if (upTo(4) > 0) fault = call("paper", 30 + upTo(upTo(2) == 0 ? 10 : 91), 6 + upTo(upTo(3) > 0 ? 5 : 35));
         for (int k = upTo(6); k > 0 && fault == null; k--) fault = call("figure", upTo(2), 1 + upTo(upTo(3) == 0 ? 40 : 6));
@@ -100,6 +104,30 @@ public final class RandomRunsTest {
             fault = upTo(100) < 4 ? checkAll() : change();
         }
         return fault == null ? checkAll() : fault;
+    }
+
+    /** As much text as can be told: notes on low paper, many rows, words with all gaps. */
+    private String fullText() throws Exception {
+        String fault = call("paper", 30, 6 + upTo(upTo(3) == 0 ? 10 : 3));
+        if (fault == null) fault = call("spell", 3);
+        if (fault == null) fault = call("pattern", 0, 1);
+        for (int f = 0; f < 5 && fault == null; f++) fault = call("figure", upTo(2), 1 + upTo(upTo(4) == 0 ? 40 : 5));
+        int headings = 1 + upTo(6);
+        int mentioned = 0;
+        for (int place = 0; place < 16 && fault == null && left > 20; place++) {
+            int kind = place < headings ? 1 : upTo(8) == 0 ? 5 : upTo(8) == 0 ? 3 : upTo(8) == 0 ? 2 : 0;
+            fault = call("block", place, kind);
+            if (fault == null) fault = kind == 3 ? call("cell", place, 3, 0, 1, 0, upTo(200)) : call("style", place, 0, 2);
+            int letters = upTo(3) == 0 ? 6 : 2;
+            for (int at = 0; at < 12 && kind < 3 && fault == null && left > 20; at++) {
+                if (kind == 1 || upTo(12) == 0) fault = call("mark", 0, 5);
+                if (fault == null && upTo(10) == 0 && mentioned < 5) fault = call("mark", 1, mentioned++);
+                if (fault == null && upTo(20) == 0) fault = call("mark", 2, upTo(6));
+                for (int k = 0; k < letters && kind != 1 && fault == null; k++) fault = call("spell", 3);
+                if (fault == null) fault = kind == 1 ? call("reference", place, at, upTo(6)) : call("word", place, at);
+            }
+        }
+        return fault;
     }
 
     private int blocks() {
@@ -119,6 +147,7 @@ public final class RandomRunsTest {
         if (what < 90) return call("key", upTo(8), upTo(3));
         if (what < 92) return call("figure", upTo(2), 1 + upTo(8));
         if (what < 93) return call("paper", 30 + upTo(30), 6 + upTo(6));
+        if (what < 94) return newPattern();
         if (what < 96) return wild();
         return ask();
     }
@@ -139,10 +168,16 @@ public final class RandomRunsTest {
         if (fault == null && upTo(20) == 0) fault = call("mark", 4, upTo(2));
         int at = upTo(4) > 0 ? other.words(place) : upTo(other.words(place) + 1);
         if (fault == null && upTo(mood % 3 == 0 ? 2 : 5) == 0) return call("reference", place, at, upTo(6));
-        int n = upTo(3) == 0 ? 6 : 1 + upTo(6);
+        int n = mood == 5 ? 1 : upTo(3) == 0 ? 6 : 1 + upTo(6);
         for (int s = 0; s < n && fault == null; s++) fault = call("spell", upTo(4));
         if (fault == null) fault = call("word", place, at);
         return fault;
+    }
+
+    private String newPattern() throws Exception {
+        String fault = call("unspell");
+        if (fault == null) fault = call("spell", upTo(4));
+        return fault == null ? call("pattern", upTo(2), 1 + upTo(5)) : fault;
     }
 
     private int figures() {

@@ -4,6 +4,7 @@ public final class ReferencesTest {
         labelPage();
         labelsOfColumns();
         settled();
+        threeDigits();
         notSettled();
         contentsAt();
         indexAt();
@@ -97,6 +98,32 @@ public final class ReferencesTest {
         Check.due("30 two rounds in the other variant", g.rounds(1), 2);
         g.style(place, Galleyforge.VARIANT, 1);
         Check.due("30 one round without the label", g.rounds(0), 1);
+    }
+
+    /** Each row has a note of 5 lines, and so a page of its own. */
+    private static void threeDigits() {
+        Galleyforge g = paper(6);
+        for (int place = 0; place < 8; place++) {
+            Check.add(g, Galleyforge.PARAGRAPH);
+            g.style(place, Galleyforge.INDENT, 2);
+            for (int at = 0; at < 12; at++) {
+                addWith(g, place, Galleyforge.NOTE, 5, "33");
+            }
+        }
+        // 21 + 3 + 6, or 21 + 3 + 9
+        int last = Check.add(g, Galleyforge.PARAGRAPH, "3331", "r3");
+        addWith(g, Check.add(g, Galleyforge.HEADING), Galleyforge.LABEL, 3, "0");
+        Check.due("37 page 97", g.labelPage(0, 3), 97);
+        Check.due("22 one line with two digits", g.lines(0, last), 1);
+        Check.due("30 two rounds", g.rounds(0), 2);
+        g.block(0, Galleyforge.TABLE);
+        for (int row = 0; row < 3; row++) {
+            g.cell(0, row, 0, 1, 0, 180);
+        }
+        Check.due("37 page 100", g.labelPage(0, 3), 100);
+        Check.due("22 two lines with three digits", g.lines(0, last + 1), 2);
+        Check.due("30 two rounds for three digits", g.rounds(0), 2);
+        Check.due("31 settled", g.isSettled(0) ? 1 : 0, 1);
     }
 
     /** Adds as many pages, each with a row of 6. */

@@ -176,6 +176,9 @@ public final class TextTest {
         widths(g, "20 all least ones are the paper's width", 11, 11, 10);
         g.paper(40, 6);
         widths(g, "20 a least width above the best one is no wish", 12, 14, 14);
+        g.cell(0, 0, 1, 1, 0, 20);
+        g.cell(0, 0, 2, 1, 0, 20);
+        widths(g, "20 all best ones are the paper's width", 0, 20, 20);
     }
 
     private static void widths(Galleyforge g, String what, int... due) {
@@ -200,6 +203,8 @@ public final class TextTest {
         Check.due("21 the width 0 has 1 line", g.rowHeight(0, 2), 1);
         g.cell(0, 0, 0, 2, 0, 200);
         Check.due("21 a span of 60", g.rowHeight(0, 0), 4);
+        g.cell(0, 2, 0, 1, 1, 200);
+        Check.due("21 the width 1", g.rowHeight(0, 2), 200);
         Check.noIndex("21 row 3", () -> g.rowHeight(0, 3));
         Check.noIndex("21 row -1", () -> g.rowHeight(0, -1));
         Check.noIndex("21 block -1", () -> g.rowHeight(-1, 0));
