@@ -860,6 +860,7 @@ public final class Galleyforge {
         private static final int CLASSES_AHEAD = 5;
         private static final int LINES_AHEAD = MOST_DEPTH + 1;
 
+        /** The places are told from 1 on; the place 0 is the beginning, at no gap. */
         int places;
         final int[] wordAt = new int[MOST_PLACES + 1];
         final int[] gapAt = new int[MOST_PLACES + 1];
@@ -978,7 +979,6 @@ public final class Galleyforge {
 
         /** Finds the best ways from each place on to the end. */
         void findBestWays() {
-            gapAt[0] = 0;
             clearWaysFrom(places, 0);
             for (int from = places - 1; from >= 0; from--) {
                 for (int linesAhead = 0; linesAhead <= depth; linesAhead++) {
@@ -1726,6 +1726,7 @@ public final class Galleyforge {
         final int[] lineClasses = new int[MOST_BLOCKS * MOST_PLACES];
         final long[] lineDemerits = new long[MOST_BLOCKS];
         private final int[] wordLines = new int[MOST_BLOCKS * MOST_WORDS];
+        /** Of the term that was asked last; with a page ahead of the first one and one behind the last one. */
         private final boolean[] onPages = new boolean[MOST_PAGES + 2];
         int rounds;
         boolean settled;
@@ -1936,7 +1937,7 @@ public final class Galleyforge {
         }
 
         private void findPagesOf(int term) {
-            for (int page = 0; page < onPages.length; page++) {
+            for (int page = 0; page <= pages.count + 1; page++) {
                 onPages[page] = false;
             }
             for (int place = 0; place < text.blocks.size(); place++) {
