@@ -25,11 +25,16 @@ final class Check {
             wrong++;
             System.out.println(what + " answered " + got + ", due is " + want.getName());
         } catch (RuntimeException e) {
-            if (e.getClass() != want) {
+            if (e.getClass() != want || !isThrownByTheClass(e)) {
                 wrong++;
-                System.out.println(what + " threw " + e + ", due is " + want.getName());
+                System.out.println(what + " threw " + e + " at " + e.getStackTrace()[0] + ", due is " + want.getName());
             }
         }
+    }
+
+    /** Neither the machine nor a list may throw: the class itself looks at what it is told. */
+    private static boolean isThrownByTheClass(RuntimeException e) {
+        return e.getStackTrace()[0].getClassName().startsWith("Galleyforge");
     }
 
     static void noIndex(String what, Call call) {
@@ -50,6 +55,60 @@ final class Check {
         if (wrong > 0) {
             System.exit(1);
         }
+    }
+
+    /** A paragraph on paper of this width; or, below 30, with a first line as narrow as that. */
+    static Galleyforge paragraph(int width, String... words) {
+        Galleyforge g = new Galleyforge();
+        g.paper(width < 30 ? 30 : width, 12);
+        add(g, Galleyforge.PARAGRAPH, words);
+        g.style(0, Galleyforge.SIDE, width < 30 ? 30 - width : 0);
+        g.style(0, Galleyforge.DEPTH, 1);
+        return g;
+    }
+
+    /** The lines of block 0, told as their ends and their classes, one behind the other. */
+    static void lines(String what, Galleyforge g, long demerits, int... endsAndClasses) {
+        int count = endsAndClasses.length / 2;
+        due(what + ": lines", g.lines(0, 0), count);
+        for (int k = 0; k < count; k++) {
+            due(what + ": end of line " + k, g.lineEnd(0, 0, k), endsAndClasses[2 * k]);
+            due(what + ": class of line " + k, g.tightness(0, 0, k), endsAndClasses[2 * k + 1]);
+        }
+        due(what + ": demerits", g.demerits(0, 0), demerits);
+        noIndex(what + ": no more lines", () -> g.lineEnd(0, 0, count));
+        noIndex(what + ": no more classes", () -> g.tightness(0, 0, count));
+    }
+
+    /** The pages of variant 0, told as rows, lines of notes and what is used, one behind the other. */
+    static void pages(String what, Galleyforge g, int cost, int... due) {
+        due(what + ": pages", g.pages(0), due.length / 3);
+        due(what + ": cost", g.cost(0), cost);
+        due(what + ": cost anew", g.costAnew(0), cost);
+        for (int k = 0; k < due.length; k++) {
+            due(what + ": page " + (k / 3 + 1) + " has " + k % 3, g.on(0, k / 3 + 1, k % 3), due[k]);
+        }
+        noIndex(what + ": no more pages", () -> g.on(0, due.length / 3 + 1, 0));
+    }
+
+    /** Where the figures of variant 0 stand. */
+    static void figures(String what, Galleyforge g, int... due) {
+        for (int k = 0; k < due.length; k++) {
+            due(what + ": figure " + k, g.figureAt(0, k), due[k]);
+        }
+    }
+
+    /** A text on paper of the width 30. */
+    static Galleyforge paper(int height) {
+        Galleyforge g = new Galleyforge();
+        g.paper(30, height);
+        return g;
+    }
+
+    /** Puts a word behind those of a block, for which something is drafted. */
+    static void marked(Galleyforge g, int place, int what, int value, String word) {
+        g.mark(what, value);
+        words(g, place, word);
     }
 
     static void spell(Galleyforge g, String letters) {

@@ -28,17 +28,9 @@ public final class LinesTest {
         return g;
     }
 
-    /** Lines told as their end and their class, one behind the other. */
     private static void lines(String what, Galleyforge g, long demerits, int... endsAndClasses) {
-        Check.due(what + ": lines", g.lines(0, 0), endsAndClasses.length / 2);
-        for (int k = 0; k < endsAndClasses.length / 2; k++) {
-            Check.due(what + ": end of line " + k, g.lineEnd(0, 0, k), endsAndClasses[2 * k]);
-            Check.due(what + ": class of line " + k, g.tightness(0, 0, k), endsAndClasses[2 * k + 1]);
-        }
-        Check.due(what + ": demerits", g.demerits(0, 0), demerits);
+        Check.lines(what, g, demerits, endsAndClasses);
         Check.due(what + ": demerits by all ways", g.demeritsByAll(0, 0), demerits);
-        Check.noIndex(what + ": no more lines", () -> g.lineEnd(0, 0, endsAndClasses.length / 2));
-        Check.noIndex(what + ": no more lines", () -> g.tightness(0, 0, endsAndClasses.length / 2));
     }
 
     private static void noLines() {

@@ -24,28 +24,10 @@ public final class PagesTest {
         Check.end("PagesTest");
     }
 
-    private static Galleyforge paper(int height) {
-        Galleyforge g = new Galleyforge();
-        g.paper(30, height);
-        return g;
-    }
-
-    /** Pages told as rows, lines of notes and what is used, one behind the other. */
     private static void pages(String what, Galleyforge g, int cost, int... due) {
-        Check.due(what + ": pages", g.pages(0), due.length / 3);
-        Check.due(what + ": cost", g.cost(0), cost);
-        Check.due(what + ": cost anew", g.costAnew(0), cost);
+        Check.pages(what, g, cost, due);
         Check.due(what + ": rounds", g.rounds(0), 1);
         Check.due(what + ": settled", g.isSettled(0) ? 1 : 0, 1);
-        for (int k = 0; k < due.length; k++) {
-            Check.due(what + ": page " + (k / 3 + 1) + " has " + k % 3, g.on(0, k / 3 + 1, k % 3), due[k]);
-        }
-    }
-
-    private static void figures(String what, Galleyforge g, int... due) {
-        for (int k = 0; k < due.length; k++) {
-            Check.due(what + ": figure " + k, g.figureAt(0, k), due[k]);
-        }
     }
 
     /** Adds a paragraph whose lines have one word each, with what is marked for it; NONE for nothing. */
@@ -65,7 +47,7 @@ public final class PagesTest {
     }
 
     private static void noRows() {
-        Galleyforge g = paper(6);
+        Galleyforge g = Check.paper(6);
         pages("no blocks", g, 0);
         Check.add(g, Galleyforge.PARAGRAPH);
         Check.add(g, Galleyforge.BREAK);
@@ -80,14 +62,14 @@ public final class PagesTest {
     }
 
     private static void headingsAtTheEnd() {
-        Galleyforge g = paper(6);
+        Galleyforge g = Check.paper(6);
         for (int k = 0; k < 4; k++) {
             Check.add(g, Galleyforge.HEADING);
         }
         pages("four headings", g, 10000, 3, 0, 6, 1, 0, 2);
         g.block(2, Galleyforge.BREAK);
         pages("a page break behind a heading", g, 0, 2, 0, 4, 2, 0, 4);
-        g = paper(6);
+        g = Check.paper(6);
         Check.addLines(g, 5);
         Check.add(g, Galleyforge.HEADING);
         Check.addLines(g, 2);
@@ -96,28 +78,28 @@ public final class PagesTest {
     }
 
     private static void paragraphs() {
-        Galleyforge g = paper(6);
+        Galleyforge g = Check.paper(6);
         Check.addLines(g, 6);
         pages("six rows", g, 0, 6, 0, 6);
-        g = paper(6);
+        g = Check.paper(6);
         Check.addLines(g, 8);
         pages("eight rows", g, 0, 6, 0, 6, 2, 0, 2);
-        g = paper(6);
+        g = Check.paper(6);
         Check.addLines(g, 7);
         pages("not the last row alone", g, 1, 5, 0, 5, 2, 0, 2);
-        g = paper(6);
+        g = Check.paper(6);
         Check.addLines(g, 5);
         Check.addLines(g, 5);
         pages("not the first row alone", g, 1, 5, 0, 5, 5, 0, 5);
-        g = paper(6);
+        g = Check.paper(6);
         Check.addLines(g, 4);
         Check.addLines(g, 6);
         pages("two rows and four", g, 0, 6, 0, 6, 4, 0, 4);
-        g = paper(6);
+        g = Check.paper(6);
         Check.addLines(g, 5);
         Check.addLines(g, 7);
         pages("three pages cost less than two", g, 2, 5, 0, 5, 5, 0, 5, 2, 0, 2);
-        g = paper(40);
+        g = Check.paper(40);
         addHighRow(g, 39);
         Check.addLines(g, 2);
         addHighRow(g, 39);
@@ -134,14 +116,14 @@ public final class PagesTest {
     }
 
     private static void keptTogether() {
-        Galleyforge g = paper(6);
+        Galleyforge g = Check.paper(6);
         Check.addLines(g, 7);
         g.style(0, Galleyforge.KEEP, 1);
         pages("seven rows that are kept", g, 10000, 6, 0, 6, 1, 0, 1);
         Check.addLines(g, 5);
         g.take(0, 0);
         pages("between two blocks", g, 0, 6, 0, 6, 5, 0, 5);
-        g = paper(6);
+        g = Check.paper(6);
         Check.addLines(g, 3);
         int place = Check.add(g, Galleyforge.COLUMNS, "333333", "333333", "333333", "333333", "333333", "333333", "333333");
         pages("four rows of columns", g, 9, 3, 0, 3, 4, 0, 4);
@@ -155,12 +137,12 @@ public final class PagesTest {
     }
 
     private static void tables() {
-        Galleyforge g = paper(6);
+        Galleyforge g = Check.paper(6);
         int place = Check.addTable(g, 2, 4);
         pages("two rows of 4", g, 104, 1, 0, 4, 1, 0, 4);
         g.style(place, Galleyforge.KEEP, 1);
         pages("two rows of 4 that are kept", g, 10004, 1, 0, 4, 1, 0, 4);
-        g = paper(6);
+        g = Check.paper(6);
         Check.addTable(g, 1, 7);
         pages("a row that is too high", g, 100, 1, 0, 7);
         Check.addTable(g, 1, 1);
@@ -170,7 +152,7 @@ public final class PagesTest {
     }
 
     private static void contentsAndIndex() {
-        Galleyforge g = paper(6);
+        Galleyforge g = Check.paper(6);
         Check.addTable(g, 1, 5);
         Check.add(g, Galleyforge.CONTENTS);
         Check.add(g, Galleyforge.HEADING);
@@ -179,7 +161,7 @@ public final class PagesTest {
         pages("contents", g, 0, 2, 0, 6, 3, 0, 5);
         g.style(1, Galleyforge.KEEP, 1);
         pages("contents that are kept", g, 1, 1, 0, 5, 4, 0, 6);
-        g = paper(6);
+        g = Check.paper(6);
         Check.addTable(g, 1, 5);
         Check.add(g, Galleyforge.INDEX);
         Check.add(g, Galleyforge.HEADING);
@@ -191,7 +173,7 @@ public final class PagesTest {
     }
 
     private static void breaks() {
-        Galleyforge g = paper(6);
+        Galleyforge g = Check.paper(6);
         Check.add(g, Galleyforge.BREAK);
         Check.addLines(g, 1);
         Check.add(g, Galleyforge.BREAK);
@@ -207,24 +189,24 @@ public final class PagesTest {
     }
 
     private static void notes() {
-        Galleyforge g = paper(8);
+        Galleyforge g = Check.paper(8);
         addMarked(g, Galleyforge.NOTE, 3, -1, -1, -1);
         pages("three lines", g, 0, 4, 3, 8);
-        g = paper(8);
+        g = Check.paper(8);
         addMarked(g, Galleyforge.NOTE, 5, -1, -1, -1);
         pages("five lines", g, 0, 2, 5, 8, 2, 0, 2);
-        g = paper(8);
+        g = Check.paper(8);
         addMarked(g, Galleyforge.NOTE, 2, 3, -1, -1);
         pages("two and three lines", g, 0, 2, 5, 8, 2, 0, 2);
-        g = paper(6);
+        g = Check.paper(6);
         addMarked(g, Galleyforge.NOTE, 3, 1);
         // two rows would leave 4 for notes, but the first note and 2 take 5
         pages("only the last note may go on", g, 301, 1, 3, 5, 1, 1, 3);
-        g = paper(7);
+        g = Check.paper(7);
         addMarked(g, Galleyforge.NOTE, 3, 2);
         // two rows leave 5
         pages("the last note goes on", g, 100, 2, 4, 7, 0, 1, 2);
-        g = paper(6);
+        g = Check.paper(6);
         Check.add(g, Galleyforge.HEADING);
         g.mark(Galleyforge.NOTE, 1);
         Check.words(g, 0, "0");
@@ -234,7 +216,7 @@ public final class PagesTest {
     }
 
     private static void notesThatGoOn() {
-        Galleyforge g = paper(6);
+        Galleyforge g = Check.paper(6);
         Check.add(g, Galleyforge.HEADING);
         for (int k = 0; k < 12; k++) {
             g.mark(Galleyforge.NOTE, 5);
@@ -269,7 +251,7 @@ public final class PagesTest {
 
     /** A heading on its page, from which 2 lines of notes are left. */
     private static Galleyforge headingWithNote() {
-        Galleyforge g = paper(6);
+        Galleyforge g = Check.paper(6);
         Check.add(g, Galleyforge.HEADING);
         g.mark(Galleyforge.NOTE, 5);
         Check.words(g, 0, "0");
@@ -277,34 +259,34 @@ public final class PagesTest {
     }
 
     private static void figuresAtTheBottom() {
-        Galleyforge g = paper(8);
+        Galleyforge g = Check.paper(8);
         g.figure(0, 5);
         addMarked(g, Galleyforge.MENTION, 0, -1, -1);
         pages("5 below 3 rows", g, 0, 3, 0, 8);
-        figures("5 below 3 rows", g, 11);
-        g = paper(8);
+        Check.figures("5 below 3 rows", g, 11);
+        g = Check.paper(8);
         g.figure(0, 4);
         addMarked(g, Galleyforge.MENTION, 0, -1, -1, -1, -1, -1, -1, -1, -1, -1);
         pages("of equal ways the fewer rows", g, 0, 4, 0, 8, 6, 0, 6);
-        figures("of equal ways the fewer rows", g, 11);
-        g = paper(8);
+        Check.figures("of equal ways the fewer rows", g, 11);
+        g = Check.paper(8);
         g.figure(0, 2);
         addMarked(g, Galleyforge.NOTE, 3, -1);
         g.mark(Galleyforge.MENTION, 0);
         Check.words(g, 0, "0");
         pages("below the notes it has no room", g, 0, 3, 3, 7, 0, 0, 2);
-        figures("below the notes it has no room", g, 22);
+        Check.figures("below the notes it has no room", g, 22);
     }
 
     private static void figuresAtTheTop() {
-        Galleyforge g = paper(6);
+        Galleyforge g = Check.paper(6);
         g.figure(0, 3);
         addMarked(g, Galleyforge.MENTION, 0, -1, -1, -1, -1);
         Check.add(g, Galleyforge.BREAK);
         Check.addLines(g, 2);
         pages("3 of half 3", g, 0, 5, 0, 5, 2, 0, 5);
-        figures("3 of half 3", g, 20);
-        g = paper(7);
+        Check.figures("3 of half 3", g, 20);
+        g = Check.paper(7);
         g.figure(0, 2);
         g.figure(1, 2);
         addKept(g, Galleyforge.MENTION, 0, 1, -1, -1, -1, -1);
@@ -313,17 +295,17 @@ public final class PagesTest {
         Check.add(g, Galleyforge.BREAK);
         Check.addLines(g, 1);
         pages("2 and 2 of half 3", g, 0, 6, 0, 6, 1, 0, 3, 1, 0, 3);
-        figures("2 and 2 of half 3", g, 20, 30);
+        Check.figures("2 and 2 of half 3", g, 20, 30);
     }
 
     private static void figuresAlone() {
-        Galleyforge g = paper(6);
+        Galleyforge g = Check.paper(6);
         g.figure(0, 4);
         addKept(g, Galleyforge.MENTION, 0, -1, -1, -1, -1);
         Check.add(g, Galleyforge.BREAK);
         Check.addLines(g, 2);
         pages("4 of half 3", g, 0, 5, 0, 5, 0, 0, 4, 2, 0, 2);
-        figures("4 of half 3", g, 22);
+        Check.figures("4 of half 3", g, 22);
         g = headingWithNote();
         g.figure(0, 4);
         g.mark(Galleyforge.MENTION, 0);
@@ -331,8 +313,8 @@ public final class PagesTest {
         Check.add(g, Galleyforge.BREAK);
         Check.addLines(g, 2);
         pages("no notes beside it", g, 100, 1, 3, 6, 0, 0, 4, 2, 2, 5);
-        figures("no notes beside it", g, 22);
-        g = paper(7);
+        Check.figures("no notes beside it", g, 22);
+        g = Check.paper(7);
         g.figure(0, 4);
         g.figure(1, 2);
         g.figure(0, 40);
@@ -343,17 +325,17 @@ public final class PagesTest {
         Check.addLines(g, 1);
         // the first one waits for the top of the next page, the other two then are first ones
         pages("only the first one is alone", g, 0, 6, 0, 6, 1, 0, 3, 0, 0, 4, 0, 0, 40, 1, 0, 1);
-        figures("only the first one is alone", g, 32, 20, 42);
+        Check.figures("only the first one is alone", g, 32, 20, 42);
     }
 
     private static void figuresBehind() {
-        Galleyforge g = paper(6);
+        Galleyforge g = Check.paper(6);
         g.figure(0, 3);
         g.figure(1, 4);
         g.figure(0, 1);
         addKept(g, Galleyforge.MENTION, 0, 1, 2, -1, -1, -1);
         pages("up to the first one that is too high", g, 0, 6, 0, 6, 0, 0, 3, 0, 0, 5);
-        figures("up to the first one that is too high", g, 22, 32, 32);
+        Check.figures("up to the first one that is too high", g, 22, 32, 32);
         g = headingWithNote();
         g.figure(0, 40);
         g.figure(0, 6);
@@ -362,18 +344,18 @@ public final class PagesTest {
         g.mark(Galleyforge.MENTION, 1);
         Check.words(g, 0, "0");
         pages("one at least, and notes behind all of them", g, 100, 1, 3, 6, 0, 0, 40, 0, 0, 6, 0, 2, 3);
-        figures("one at least", g, 22, 32);
+        Check.figures("one at least", g, 22, 32);
     }
 
     private static void kindsOfFigures() {
-        Galleyforge g = paper(8);
+        Galleyforge g = Check.paper(8);
         g.figure(0, 5);
         g.figure(0, 1);
         g.figure(1, 1);
         addKept(g, Galleyforge.MENTION, 0, 1, 2, -1);
         pages("kinds at the bottom", g, 0, 4, 0, 5, 0, 0, 6);
-        figures("kinds at the bottom", g, 22, 22, 11);
-        g = paper(12);
+        Check.figures("kinds at the bottom", g, 22, 22, 11);
+        g = Check.paper(12);
         g.figure(0, 4);
         g.figure(0, 3);
         g.figure(0, 1);
@@ -382,8 +364,8 @@ public final class PagesTest {
         Check.add(g, Galleyforge.BREAK);
         Check.addLines(g, 1);
         pages("kinds at the top", g, 0, 12, 0, 12, 1, 0, 7, 0, 0, 4);
-        figures("kinds at the top", g, 20, 32, 32, 20);
-        g = paper(6);
+        Check.figures("kinds at the top", g, 20, 32, 32, 20);
+        g = Check.paper(6);
         g.figure(0, 3);
         g.figure(0, 3);
         g.figure(0, 1);
@@ -392,18 +374,18 @@ public final class PagesTest {
         addMarked(g, Galleyforge.MENTION, 2);
         // the second one stays waiting, so that the third one may not stand at the bottom
         pages("a figure that stays waiting", g, 0, 6, 0, 6, 1, 0, 4, 0, 0, 4);
-        figures("a figure that stays waiting", g, 20, 32, 32);
+        Check.figures("a figure that stays waiting", g, 20, 32, 32);
     }
 
     private static void orderOfFigures() {
-        Galleyforge g = paper(6);
+        Galleyforge g = Check.paper(6);
         g.figure(0, 6);
         g.figure(0, 6);
         g.figure(1, 6);
         addMarked(g, Galleyforge.MENTION, 1, 0, 1);
         pages("order by mentions", g, 0, 3, 0, 3, 0, 0, 6, 0, 0, 6);
-        figures("order by mentions", g, 32, 22, -1);
-        g = paper(6);
+        Check.figures("order by mentions", g, 32, 22, -1);
+        g = Check.paper(6);
         g.figure(0, 6);
         g.figure(0, 6);
         Check.add(g, Galleyforge.HEADING);
@@ -411,8 +393,8 @@ public final class PagesTest {
         Check.words(g, 0, "0");
         g.mark(Galleyforge.MENTION, 0);
         Check.words(g, 0, "0");
-        figures("order by words", g, 32, 22);
-        g = paper(6);
+        Check.figures("order by words", g, 32, 22);
+        g = Check.paper(6);
         g.figure(0, 6);
         g.figure(0, 6);
         g.block(0, Galleyforge.COLUMNS);
@@ -422,9 +404,9 @@ public final class PagesTest {
         g.mark(Galleyforge.MENTION, 1);
         Check.words(g, 0, "333333");
         // the third word is in the first row
-        figures("order by rows of columns", g, 32, 22);
+        Check.figures("order by rows of columns", g, 32, 22);
         Check.due("a figure that was mentioned is nowhere", g.take(0, 1), 2);
-        figures("a figure without a mention", g, -1, 22);
+        Check.figures("a figure without a mention", g, -1, 22);
         Check.noIndex("36 figure 2", () -> g2().figureAt(0, 2));
     }
 
@@ -436,7 +418,7 @@ public final class PagesTest {
     }
 
     private static void heads() {
-        Galleyforge g = paper(6);
+        Galleyforge g = Check.paper(6);
         Check.addLines(g, 2);
         Check.add(g, Galleyforge.BREAK);
         Check.add(g, Galleyforge.HEADING);
@@ -467,7 +449,7 @@ public final class PagesTest {
     }
 
     private static void textAt() {
-        Galleyforge g = paper(6);
+        Galleyforge g = Check.paper(6);
         Check.addLines(g, 1);
         g.style(0, Galleyforge.VARIANT, 1);
         Check.addLines(g, 8);
@@ -486,7 +468,7 @@ public final class PagesTest {
     }
 
     private static void whereIs() {
-        Galleyforge g = paper(6);
+        Galleyforge g = Check.paper(6);
         Check.addLines(g, 8);
         Check.due("35 a word of the first page", g.whereIs(0, 0, 5), 1005);
         Check.due("35 a word of the second page", g.whereIs(0, 0, 7), 2001);
@@ -502,7 +484,7 @@ public final class PagesTest {
         g.style(1, Galleyforge.VARIANT, 1);
         Check.due("35 not there", g.whereIs(0, 1, 1), -1);
         Check.due("35 there", g.whereIs(1, 1, 1), 2003);
-        Galleyforge broken = paper(6);
+        Galleyforge broken = Check.paper(6);
         Check.add(broken, Galleyforge.PARAGRAPH, "333333", "0");
         Check.pattern(broken, "3", 0, 1);
         broken.mark(Galleyforge.ONLY, 1);
@@ -515,7 +497,7 @@ public final class PagesTest {
     }
 
     private static void variants() {
-        Galleyforge g = paper(6);
+        Galleyforge g = Check.paper(6);
         Check.addLines(g, 8);
         g.style(0, Galleyforge.VARIANT, 1);
         Check.addLines(g, 2);
@@ -532,7 +514,7 @@ public final class PagesTest {
     }
 
     private static void wrongInputs() {
-        Galleyforge g = paper(6);
+        Galleyforge g = Check.paper(6);
         Check.addLines(g, 1);
         g.figure(0, 1);
         for (int variant : new int[] {-1, 2, Integer.MAX_VALUE, Integer.MIN_VALUE}) {

@@ -12,26 +12,15 @@ public final class ReferencesTest {
         Check.end("ReferencesTest");
     }
 
-    private static Galleyforge paper(int height) {
-        Galleyforge g = new Galleyforge();
-        g.paper(30, height);
-        return g;
-    }
-
-    private static void addWith(Galleyforge g, int place, int what, int value, String word) {
-        g.mark(what, value);
-        Check.words(g, place, word);
-    }
-
     private static void labelPage() {
-        Galleyforge g = paper(6);
+        Galleyforge g = Check.paper(6);
         Check.due("37 no blocks", g.labelPage(0, 0), -1);
         Check.addLines(g, 8);
         g.take(0, 7);
-        addWith(g, 0, Galleyforge.LABEL, 0, "333333");
+        Check.marked(g, 0, Galleyforge.LABEL, 0, "333333");
         Check.due("37 the second page", g.labelPage(0, 0), 2);
         Check.due("37 no word has it", g.labelPage(0, 1), -1);
-        addWith(g, 0, Galleyforge.LABEL, 0, "333333");
+        Check.marked(g, 0, Galleyforge.LABEL, 0, "333333");
         Check.due("37 the first row counts", g.labelPage(0, 0), 2);
         g.take(0, 0);
         g.mark(Galleyforge.LABEL, 0);
@@ -53,7 +42,7 @@ public final class ReferencesTest {
 
     /** The word 8 begins in the row 0, so that it is ahead of the word 1. */
     private static void labelsOfColumns() {
-        Galleyforge g = paper(6);
+        Galleyforge g = Check.paper(6);
         Check.add(g, Galleyforge.COLUMNS);
         for (int k = 0; k < 12; k++) {
             g.mark(Galleyforge.LABEL, k == 5 || k == 6 ? 3 : -1);
@@ -75,14 +64,14 @@ public final class ReferencesTest {
     }
 
     private static void settled() {
-        Galleyforge g = paper(6);
+        Galleyforge g = Check.paper(6);
         // 24 + 3 + 3, or 24 + 3 + 6
         Check.add(g, Galleyforge.PARAGRAPH, "3333", "r2");
         Check.due("30 one round", g.rounds(0), 1);
         Check.due("22 one line", g.lines(0, 0), 1);
         pagesOf(g, 7);
         int place = Check.add(g, Galleyforge.PARAGRAPH);
-        addWith(g, place, Galleyforge.LABEL, 2, "0");
+        Check.marked(g, place, Galleyforge.LABEL, 2, "0");
         Check.due("37 page 9", g.labelPage(0, 2), 9);
         Check.due("30 one round for page 9", g.rounds(0), 1);
         Check.due("22 one line for page 9", g.lines(0, 0), 1);
@@ -102,24 +91,26 @@ public final class ReferencesTest {
 
     /** Each row has a note of 5 lines, and so a page of its own. */
     private static void threeDigits() {
-        Galleyforge g = paper(6);
+        Galleyforge g = Check.paper(6);
         for (int place = 0; place < 8; place++) {
             Check.add(g, Galleyforge.PARAGRAPH);
             g.style(place, Galleyforge.INDENT, 2);
             for (int at = 0; at < 12; at++) {
-                addWith(g, place, Galleyforge.NOTE, 5, "33");
+                Check.marked(g, place, Galleyforge.NOTE, 5, "33");
             }
         }
         // 21 + 3 + 6, or 21 + 3 + 9
         int last = Check.add(g, Galleyforge.PARAGRAPH, "3331", "r3");
-        addWith(g, Check.add(g, Galleyforge.HEADING), Galleyforge.LABEL, 3, "0");
+        Check.marked(g, Check.add(g, Galleyforge.HEADING), Galleyforge.LABEL, 3, "0");
         Check.due("37 page 97", g.labelPage(0, 3), 97);
         Check.due("22 one line with two digits", g.lines(0, last), 1);
         Check.due("30 two rounds", g.rounds(0), 2);
         g.block(0, Galleyforge.TABLE);
-        for (int row = 0; row < 3; row++) {
-            g.cell(0, row, 0, 1, 0, 180);
-        }
+        g.cell(0, 0, 0, 1, 0, 180);
+        g.cell(0, 1, 0, 1, 0, 180);
+        Check.due("37 page 99", g.labelPage(0, 3), 99);
+        Check.due("22 one line for page 99", g.lines(0, last + 1), 1);
+        g.cell(0, 2, 0, 1, 0, 180);
         Check.due("37 page 100", g.labelPage(0, 3), 100);
         Check.due("22 two lines with three digits", g.lines(0, last + 1), 2);
         Check.due("30 two rounds for three digits", g.rounds(0), 2);
@@ -138,24 +129,24 @@ public final class ReferencesTest {
      * behind it, and the label is on page 10. With two digits there are three rows, and the figures stand below.
      */
     private static void notSettled() {
-        Galleyforge g = paper(8);
+        Galleyforge g = Check.paper(8);
         g.figure(0, 5);
         g.figure(1, 5);
         pagesOf(g, 6);
         Check.add(g, Galleyforge.BREAK);
         int first = Check.add(g, Galleyforge.PARAGRAPH, "333", "r4", "1");
-        addWith(g, first, Galleyforge.MENTION, 0, "333333");
+        Check.marked(g, first, Galleyforge.MENTION, 0, "333333");
         g.style(first, Galleyforge.KEEP, 1);
         int second = Check.addLines(g, 2);
         g.style(second, Galleyforge.KEEP, 1);
-        addWith(g, second, Galleyforge.MENTION, 1, "333333");
+        Check.marked(g, second, Galleyforge.MENTION, 1, "333333");
         Check.add(g, Galleyforge.BREAK);
         int heading = Check.add(g, Galleyforge.HEADING, "0");
         Check.due("30 nothing refers to the heading", g.rounds(0), 1);
         Check.due("37 nothing refers to the heading", g.whereIs(0, heading, 0), 10000);
         Check.due("36 it is alone", g.figureAt(0, 0), 82);
         Check.due("36 it is alone", g.figureAt(0, 1), 92);
-        addWith(g, heading, Galleyforge.LABEL, 4, "0");
+        Check.marked(g, heading, Galleyforge.LABEL, 4, "0");
         Check.due("30 three rounds", g.rounds(0), 3);
         Check.due("31 not settled", g.isSettled(0) ? 1 : 0, 0);
         Check.due("22 lines with two digits", g.lines(0, first), 3);
@@ -170,7 +161,7 @@ public final class ReferencesTest {
     }
 
     private static void contentsAt() {
-        Galleyforge g = paper(6);
+        Galleyforge g = Check.paper(6);
         Check.noIndex("38 no headings", () -> g.contentsAt(0, 0));
         Check.add(g, Galleyforge.CONTENTS);
         Check.add(g, Galleyforge.HEADING);
@@ -193,13 +184,13 @@ public final class ReferencesTest {
     }
 
     private static void indexAt() {
-        Galleyforge g = paper(6);
+        Galleyforge g = Check.paper(6);
         Check.noIndex("39 no terms", () -> g.indexAt(0, 0));
         Check.add(g, Galleyforge.HEADING);
-        addWith(g, 0, Galleyforge.TERM, 7, "0");
-        addWith(g, 0, Galleyforge.TERM, 2, "0");
-        addWith(g, 0, Galleyforge.TERM, 5, "0");
-        addWith(g, 0, Galleyforge.TERM, 2, "0");
+        Check.marked(g, 0, Galleyforge.TERM, 7, "0");
+        Check.marked(g, 0, Galleyforge.TERM, 2, "0");
+        Check.marked(g, 0, Galleyforge.TERM, 5, "0");
+        Check.marked(g, 0, Galleyforge.TERM, 2, "0");
         index(g, 0, 2, 5, 7);
         g.key(2, 3);
         index(g, 0, 5, 7, 2);
@@ -208,7 +199,7 @@ public final class ReferencesTest {
         g.key(0, 1);
         index(g, 0, 2, 7, 5);
         g.mark(Galleyforge.ONLY, 1);
-        addWith(g, 0, Galleyforge.TERM, 0, "0");
+        Check.marked(g, 0, Galleyforge.TERM, 0, "0");
         index(g, 0, 2, 7, 5);
         index(g, 1, 0, 2, 7, 5);
         Check.add(g, Galleyforge.INDEX);
@@ -231,7 +222,7 @@ public final class ReferencesTest {
 
     /** A heading on each page. */
     private static void range() {
-        Galleyforge g = paper(6);
+        Galleyforge g = Check.paper(6);
         for (int page = 1; page <= 8; page++) {
             g.block(0, Galleyforge.HEADING);
             if (page < 8) {
@@ -240,11 +231,11 @@ public final class ReferencesTest {
         }
         int[] pages = {8, 2, 3, 3, 1, 5};
         for (int page : pages) {
-            addWith(g, 2 * (page - 1), Galleyforge.TERM, 6, "0");
+            Check.marked(g, 2 * (page - 1), Galleyforge.TERM, 6, "0");
         }
         g.mark(Galleyforge.ONLY, 1);
-        addWith(g, 2 * 3, Galleyforge.TERM, 6, "0");
-        addWith(g, 2 * 6, Galleyforge.TERM, 1, "0");
+        Check.marked(g, 2 * 3, Galleyforge.TERM, 6, "0");
+        Check.marked(g, 2 * 6, Galleyforge.TERM, 1, "0");
         ranges(g, 0, 6, 1003, 5005, 8008);
         ranges(g, 1, 6, 1005, 8008);
         ranges(g, 0, 1, 7007);
@@ -265,14 +256,14 @@ public final class ReferencesTest {
     }
 
     private static void pageWithoutRowsParts() {
-        Galleyforge g = paper(6);
+        Galleyforge g = Check.paper(6);
         g.figure(0, 5);
         Check.add(g, Galleyforge.HEADING);
         g.mark(Galleyforge.MENTION, 0);
-        addWith(g, 0, Galleyforge.TERM, 3, "0");
+        Check.marked(g, 0, Galleyforge.TERM, 3, "0");
         Check.add(g, Galleyforge.BREAK);
         Check.add(g, Galleyforge.HEADING);
-        addWith(g, 2, Galleyforge.TERM, 3, "0");
+        Check.marked(g, 2, Galleyforge.TERM, 3, "0");
         ranges(g, 0, 3, 1001, 3003);
     }
 }
