@@ -151,6 +151,29 @@ final class Check {
         return place;
     }
 
+    /** Adds a table with one row of any height: one column is 5 wide, the other one takes what there is. */
+    static void addRow(Galleyforge g, int height) {
+        int place = add(g, Galleyforge.TABLE);
+        g.cell(place, 0, 0, 1, 5, 5 * height);
+        g.cell(place, 0, 1, 1, 60, 60);
+    }
+
+    /** Adds a paragraph whose lines have one word each, for which this is drafted; NONE for nothing. */
+    static int addMarked(Galleyforge g, int what, int... values) {
+        int place = add(g, Galleyforge.PARAGRAPH);
+        for (int value : values) {
+            marked(g, place, what, value, "333333");
+        }
+        return place;
+    }
+
+    /** The same, kept together. */
+    static int addKept(Galleyforge g, int what, int... values) {
+        int place = addMarked(g, what, values);
+        g.style(place, Galleyforge.KEEP, 1);
+        return place;
+    }
+
     /** A paragraph in which each of the words fills a line of its own, on paper of the width 30. */
     static int addLines(Galleyforge g, int lines) {
         int place = add(g, Galleyforge.PARAGRAPH);

@@ -39,12 +39,8 @@ public final class CostEdgesTest {
 
     private static void rows(Galleyforge g, int... heights) {
         for (int height : heights) {
-            PageEdgesTest.row(g, height);
+            Check.addRow(g, height);
         }
-    }
-
-    private static int kept(Galleyforge g, int what, int... values) {
-        return PageEdgesTest.kept(g, what, values);
     }
 
     private static int heading(Galleyforge g, int... notes) {
@@ -76,7 +72,7 @@ public final class CostEdgesTest {
     private static void rowsBelowFigures() {
         Galleyforge g = paper(6, 0, 3);
         rows(g, 5);
-        kept(g, MENTION, 0);
+        Check.addKept(g, MENTION, 0);
         pageBreak(g);
         rows(g, 2, 1);
         Check.pages("f is 0", g, 0, 2, 0, 6, 2, 0, 6);
@@ -91,45 +87,45 @@ public final class CostEdgesTest {
     /** "if words in them have notes, f is at least the lines that are left, and those of all these notes but the last". */
     private static void rowsWithANote() {
         Galleyforge g = paper(6);
-        kept(g, NOTE, 5, -1, -1, -1);
+        Check.addKept(g, NOTE, 5, -1, -1, -1);
         // of one note one line, and the rule
         Check.pages("f is 2", g, 100, 4, 1, 6, 0, 4, 5);
         g = paper(6);
-        kept(g, NOTE, 5, -1, -1, -1, -1);
+        Check.addKept(g, NOTE, 5, -1, -1, -1, -1);
         Check.pages("f would be 1", g, 10100, 1, 4, 6, 4, 1, 6);
         g = paper(6);
-        kept(g, NOTE, -1, -1, -1, -1, 4);
+        Check.addKept(g, NOTE, -1, -1, -1, -1, 4);
         Check.pages("a note in the fifth row", g, 10004, 4, 0, 4, 1, 4, 6);
         g = paper(6);
-        kept(g, NOTE, -1, -1, -1, 5);
+        Check.addKept(g, NOTE, -1, -1, -1, 5);
         Check.pages("a note in the fourth row", g, 100, 4, 1, 6, 0, 4, 5);
     }
 
     private static void rowsWithNotes() {
         Galleyforge g = paper(7);
-        kept(g, NOTE, 3, 5);
+        Check.addKept(g, NOTE, 3, 5);
         Check.pages("f is 3 and 2", g, 100, 2, 4, 7, 0, 4, 5);
         g = paper(7);
-        kept(g, NOTE, 4, 5);
+        Check.addKept(g, NOTE, 4, 5);
         Check.pages("f is less than 4 and 2", g, 10001, 1, 4, 6, 1, 5, 7);
         g = paper(7);
-        kept(g, NOTE, 3, 1);
+        Check.addKept(g, NOTE, 3, 1);
         Check.pages("both have room", g, 0, 2, 4, 7);
         g = paper(9);
-        kept(g, NOTE, 2, 2, 5);
+        Check.addKept(g, NOTE, 2, 2, 5);
         Check.pages("f is 2, 2 and 2", g, 100, 3, 5, 9, 0, 4, 5);
         g = paper(9);
-        kept(g, NOTE, 2, 3, 5);
+        Check.addKept(g, NOTE, 2, 3, 5);
         Check.due("f is less than 2, 3 and 2", g.cost(0) >= 10000 ? 1 : 0, 1);
     }
 
     /** "or, if they have none and lines are left, at least 2". */
     private static void rowsWithLinesLeft() {
         Galleyforge g = lineLeft();
-        kept(g, NOTE, -1, -1, -1, -1);
+        Check.addKept(g, NOTE, -1, -1, -1, -1);
         Check.pages("f is 2", g, 100, 1, 4, 6, 4, 1, 6);
         g = lineLeft();
-        kept(g, NOTE, -1, -1, -1, -1, -1);
+        Check.addKept(g, NOTE, -1, -1, -1, -1, -1);
         Check.pages("f would be 1", g, 10100, 1, 4, 6, 4, 1, 6, 1, 0, 1);
         g = lineLeft();
         rows(g, 4, 2);
@@ -139,7 +135,7 @@ public final class CostEdgesTest {
     /** A page from which one line of a note is left. */
     private static Galleyforge lineLeft() {
         Galleyforge g = paper(6);
-        kept(g, NOTE, 5);
+        Check.addKept(g, NOTE, 5);
         pageBreak(g);
         return g;
     }
@@ -149,18 +145,18 @@ public final class CostEdgesTest {
         Galleyforge g = paper(6);
         heading(g, 5);
         pageBreak(g);
-        kept(g, NOTE, 1, -1);
+        Check.addKept(g, NOTE, 1, -1);
         // 2 lines are left: f is 4
         Check.pages("f is 2 and 2", g, 100, 1, 3, 6, 2, 3, 6);
         g = paper(6);
         heading(g, 5);
         pageBreak(g);
-        kept(g, NOTE, 1, -1, -1);
+        Check.addKept(g, NOTE, 1, -1, -1);
         Check.pages("f would be 3", g, 10100, 1, 3, 6, 2, 3, 6, 1, 0, 1);
         g = paper(6);
         heading(g, 5);
         pageBreak(g);
-        kept(g, NOTE, 5, -1);
+        Check.addKept(g, NOTE, 5, -1);
         Check.pages("the last note goes on", g, 200, 1, 3, 6, 2, 3, 6, 0, 4, 5);
     }
 
@@ -179,7 +175,7 @@ public final class CostEdgesTest {
         rows(g, 7);
         Check.pages("f is below 0", g, 300, 1, 4, 6, 1, 0, 7, 0, 1, 2);
         g = paper(6);
-        kept(g, NOTE, 5);
+        Check.addKept(g, NOTE, 5);
         rows(g, 3, 7);
         // both rows on the first page would leave 4 lines, which would have no room beside 7: 300
         Check.pages("no lines are left then", g, 100 + 1 + 100, 1, 4, 6, 1, 1, 5, 1, 0, 7);
@@ -212,7 +208,7 @@ public final class CostEdgesTest {
 
     private static Galleyforge secondLineWithNotes(int one, int other) {
         Galleyforge g = paper(6);
-        int place = kept(g, NOTE);
+        int place = Check.addKept(g, NOTE);
         Check.words(g, place, "33333");
         Check.marked(g, place, NOTE, one, "33");
         Check.marked(g, place, NOTE, other, "331");
@@ -245,17 +241,17 @@ public final class CostEdgesTest {
         heading(g, 1);
         Check.pages("f is 1", g, 100, 6, 0, 6, 1, 0, 5, 0, 1, 2);
         g = figureOnTop();
-        kept(g, NOTE, 1);
+        Check.addKept(g, NOTE, 1);
         Check.pages("f is 2", g, 0, 6, 0, 6, 1, 1, 6);
         g = figureOnTop();
-        kept(g, NOTE, 2);
+        Check.addKept(g, NOTE, 2);
         Check.pages("f is 2, and 1 is left", g, 100, 6, 0, 6, 1, 1, 6, 0, 1, 2);
     }
 
     /** On paper of the height 6 a full page, and behind it one on which a figure of 3 comes to the top. */
     private static Galleyforge figureOnTop() {
         Galleyforge g = paper(6, 0, 3);
-        kept(g, MENTION, -1, -1, -1, -1, -1, 0);
+        Check.addKept(g, MENTION, -1, -1, -1, -1, -1, 0);
         pageBreak(g);
         return g;
     }
@@ -277,7 +273,7 @@ public final class CostEdgesTest {
     /** Rows that had notes, and have none any more. */
     private static void notesThatAreGone() {
         Galleyforge g = paper(6);
-        int place = kept(g, NOTE, 3, 5, -1, -1, -1);
+        int place = Check.addKept(g, NOTE, 3, 5, -1, -1, -1);
         // 1 and 10000 for the first page, 100 for the second one
         Check.pages("with notes", g, 10101, 1, 3, 5, 4, 1, 6, 0, 4, 5);
         g.take(place, 1);
@@ -328,12 +324,12 @@ public final class CostEdgesTest {
         g = lineLeft();
         Check.pages("ahead of a page break", g, 100, 1, 4, 6, 0, 1, 2);
         g = paper(6);
-        kept(g, NOTE, 5);
+        Check.addKept(g, NOTE, 5);
         rows(g, 5, 6);
         // 100; 100 and 1; 100
         Check.pages("on three pages", g, 301, 1, 4, 6, 1, 0, 5, 1, 0, 6, 0, 1, 2);
         g = paper(6);
-        kept(g, NOTE, 5);
+        Check.addKept(g, NOTE, 5);
         rows(g, 7, 6);
         Check.pages("with more than the paper", g, 100 + 200 + 100, 1, 4, 6, 1, 0, 7, 1, 0, 6, 0, 1, 2);
         g = paper(6);
@@ -384,7 +380,7 @@ public final class CostEdgesTest {
         for (int keep = 0; keep <= 1; keep++) {
             Galleyforge g = paper(40);
             rows(g, 39);
-            int place = kept(g, NOTE, -1, -1, -1);
+            int place = Check.addKept(g, NOTE, -1, -1, -1);
             g.style(place, Galleyforge.KEEP, keep);
             rows(g, 38);
             if (keep == 0) {
@@ -417,14 +413,14 @@ public final class CostEdgesTest {
         for (int[] c : cases) {
             Galleyforge g = paper(40);
             rows(g, c[0]);
-            PageEdgesTest.lines(g, NOTE, none(c[1]));
+            Check.addMarked(g, NOTE, none(c[1]));
             rows(g, c[2]);
             int first = 40 - c[0];
             Check.pages(first + " of " + c[1] + " rows ahead", g, c[3], 1 + first, 0, 40, 1 + c[1] - first, 0, 40);
         }
         Galleyforge g = paper(40);
         rows(g, 40);
-        PageEdgesTest.lines(g, NOTE, -1);
+        Check.addMarked(g, NOTE, -1);
         rows(g, 39);
         Check.pages("one row", g, 0, 1, 0, 40, 2, 0, 40);
     }
@@ -462,8 +458,8 @@ public final class CostEdgesTest {
         }
         Galleyforge g = paper(40);
         rows(g, 39);
-        kept(g, NOTE, -1);
-        kept(g, NOTE, -1);
+        Check.addKept(g, NOTE, -1);
+        Check.addKept(g, NOTE, -1);
         Check.pages("two blocks that are kept", g, 0, 2, 0, 40, 1, 0, 1);
         Galleyforge h = paper(40);
         Check.add(h, Galleyforge.CONTENTS);
@@ -495,7 +491,7 @@ public final class CostEdgesTest {
         for (int k = 0; k < count; k++) {
             all[k] = k;
         }
-        kept(g, MENTION, all);
+        Check.addKept(g, MENTION, all);
         int[] due = new int[pages.length + 3];
         due[0] = 1 + count;
         due[2] = 6;
@@ -529,31 +525,31 @@ public final class CostEdgesTest {
     /** "of several ways by the fewest pages". */
     private static void theFewestPages() {
         Galleyforge g = paper(28, 0, 26, 1, 18);
-        PageEdgesTest.lines(g, MENTION, 0, 1);
+        Check.addMarked(g, MENTION, 0, 1);
         heading(g);
         // two pages with rows would be 28 high and without costs, too
         Check.pages("one page with rows, one with a figure", g, 0, 3, 0, 22, 0, 0, 26);
         g = paper(6);
-        kept(g, NOTE, 5);
+        Check.addKept(g, NOTE, 5);
         heading(g);
         pageBreak(g);
         heading(g);
         // a page with one row is full, too, and 100 is to be paid for it, too
         Check.pages("two rows on the first page", g, 100, 2, 2, 6, 1, 3, 6);
         g = paper(6, 0, 5);
-        kept(g, MENTION, 0);
+        Check.addKept(g, MENTION, 0);
         heading(g);
         pageBreak(g);
         heading(g);
         // a page for the figure alone counts
         Check.pages("a figure that is not alone", g, 0, 1, 0, 6, 1, 0, 2, 1, 0, 2);
         g = paper(7, 0, 6);
-        kept(g, MENTION, 0);
+        Check.addKept(g, MENTION, 0);
         heading(g);
         // a page for the figure behind all rows counts
         Check.pages("a figure that is not behind", g, 0, 1, 0, 7, 1, 0, 2);
         g = paper(7, 1, 5, 1, 5);
-        PageEdgesTest.lines(g, MENTION, 0, 1);
+        Check.addMarked(g, MENTION, 0, 1);
         heading(g);
         Check.pages("one figure behind", g, 0, 2, 0, 7, 0, 0, 5, 1, 0, 2);
         Check.figures("one figure behind", g, 11, 22);
@@ -595,7 +591,7 @@ public final class CostEdgesTest {
         rows(g, 6);
         Check.pages("on the second page", g, 10016, 1, 0, 6, 1, 0, 2, 2, 0, 6, 1, 0, 6);
         g = paper(6);
-        kept(g, NOTE, 5);
+        Check.addKept(g, NOTE, 5);
         heading(g);
         // 2 lines of the note could come below both rows, and 3 behind them
         Check.pages("a line below the second row", g, 100, 1, 4, 6, 1, 1, 4);
@@ -605,7 +601,7 @@ public final class CostEdgesTest {
         // 100 for the first page, or for one line that is left
         Check.pages("two pages either way", g, 100, 1, 0, 23, 1, 8, 11);
         g = paper(6);
-        PageEdgesTest.lines(g, NOTE, -1, -1, -1, -1, -1, -1, -1, -1, -1, -1, -1, -1);
+        Check.addMarked(g, NOTE, -1, -1, -1, -1, -1, -1, -1, -1, -1, -1, -1, -1);
         Check.pages("two full pages", g, 0, 6, 0, 6, 6, 0, 6);
     }
 }

@@ -117,8 +117,9 @@ public final class LineEdgesTest {
         for (int depth = 0; depth <= 3; depth++) {
             for (int filled = 0; filled <= 3; filled++) {
                 Galleyforge g = styled(30, 0, 12, depth, words[filled]);
-                Check.due("depth " + depth + ", narrow words " + filled + ": lines", g.lines(0, 0), 4);
-                Check.due("depth " + depth + ", narrow words " + filled, g.demerits(0, 0) == 400 ? 1 : 0, depth == filled ? 1 : 0);
+                String what = "depth " + depth + ", narrow words " + filled;
+                Check.due(what + ": lines", g.lines(0, 0), 4);
+                Check.due(what + ": full", g.demerits(0, 0) == 400 ? 1 : 0, depth == filled ? 1 : 0);
             }
             Check.lines("depth " + depth, styled(30, 0, 12, depth, words[depth]), 400, 0, 1, 10, 1, 20, 1, 30, 1);
         }

@@ -23,32 +23,9 @@ public final class PageEdgesTest {
         Check.end("PageEdgesTest");
     }
 
-    /** Adds a table with one row of any height: one column is 5 wide, another one as wide as can be. */
-    static void row(Galleyforge g, int height) {
-        int place = Check.add(g, Galleyforge.TABLE);
-        g.cell(place, 0, 0, 1, 5, 5 * height);
-        g.cell(place, 0, 1, 1, 60, 60);
-    }
-
     /** Adds a page break. */
     static void pageBreak(Galleyforge g) {
         Check.add(g, Galleyforge.BREAK);
-    }
-
-    /** Adds a paragraph whose lines have one word each, for which this is drafted; NONE for nothing. */
-    static int lines(Galleyforge g, int what, int... values) {
-        int place = Check.add(g, Galleyforge.PARAGRAPH);
-        for (int value : values) {
-            Check.marked(g, place, what, value, "333333");
-        }
-        return place;
-    }
-
-    /** The same, kept together. */
-    static int kept(Galleyforge g, int what, int... values) {
-        int place = lines(g, what, values);
-        g.style(place, Galleyforge.KEEP, 1);
-        return place;
     }
 
     /** Paper of this height, and figures, each told as its kind and its height. */
@@ -65,8 +42,8 @@ public final class PageEdgesTest {
         Galleyforge g = paper(6);
         Check.due("no pages", g.pages(0), 0);
         Check.noIndex("page 1 of none", () -> g.on(0, 1, 0));
-        row(g, 6);
-        row(g, 6);
+        Check.addRow(g, 6);
+        Check.addRow(g, 6);
         Check.pages("two pages", g, 0, 1, 0, 6, 1, 0, 6);
         Check.due("the first row", g.textAt(0, 1, 0), 0);
         Check.due("the second row", g.textAt(0, 2, 0), 1000);
@@ -80,18 +57,18 @@ public final class PageEdgesTest {
     /** "one or more on each page that has rows": one that is too high, too. */
     private static void oneRowAtLeast() {
         Galleyforge g = paper(6);
-        row(g, 40);
+        Check.addRow(g, 40);
         Check.pages("a row of 40 on 6", g, 3400, 1, 0, 40);
-        row(g, 7);
+        Check.addRow(g, 7);
         Check.pages("and one of 7", g, 3500, 1, 0, 40, 1, 0, 7);
         g = paper(6);
-        lines(g, NOTE, -1);
-        row(g, 7);
-        lines(g, NOTE, -1);
+        Check.addMarked(g, NOTE, -1);
+        Check.addRow(g, 7);
+        Check.addMarked(g, NOTE, -1);
         Check.pages("one of 7 between others", g, 25 + 100, 1, 0, 1, 1, 0, 7, 1, 0, 1);
         g = paper(40);
-        row(g, 40);
-        row(g, 40);
+        Check.addRow(g, 40);
+        Check.addRow(g, 40);
         Check.pages("two of 40 on 40", g, 0, 1, 0, 40, 1, 0, 40);
     }
 
@@ -102,7 +79,7 @@ public final class PageEdgesTest {
             pageBreak(g);
             pageBreak(g);
             if (k < 3) {
-                row(g, k + 1);
+                Check.addRow(g, k + 1);
             }
         }
         Check.pages("two ahead of all, between, and behind", g, 0, 1, 0, 1, 1, 0, 2, 1, 0, 3);
@@ -115,9 +92,9 @@ public final class PageEdgesTest {
         g.block(7, Galleyforge.TABLE);
         Check.pages("blocks without rows between", g, 0, 1, 0, 1, 1, 0, 2, 1, 0, 3);
         g = paper(12);
-        int place = kept(g, NOTE, -1, -1);
+        int place = Check.addKept(g, NOTE, -1, -1);
         pageBreak(g);
-        lines(g, NOTE, -1);
+        Check.addMarked(g, NOTE, -1);
         Check.pages("behind a block", g, 0, 2, 0, 2, 1, 0, 1);
         g.remove(1);
         Check.pages("without it", g, 0, 3, 0, 3);
@@ -141,7 +118,7 @@ public final class PageEdgesTest {
     private static Galleyforge waiting(int height, int... figures) {
         Galleyforge g = paper(height, figures);
         int count = figures.length / 2;
-        row(g, height - count);
+        Check.addRow(g, height - count);
         int place = Check.add(g, Galleyforge.PARAGRAPH);
         g.style(place, Galleyforge.KEEP, 1);
         for (int k = 0; k < count; k++) {
@@ -149,7 +126,7 @@ public final class PageEdgesTest {
         }
         for (int k = 0; k < count; k++) {
             pageBreak(g);
-            lines(g, NOTE, -1);
+            Check.addMarked(g, NOTE, -1);
         }
         return g;
     }
@@ -187,16 +164,16 @@ public final class PageEdgesTest {
     /** "and none of its kind that is ahead of it in order waits": of those that are mentioned on the page. */
     private static void ofItsKindAtTheBottom() {
         Galleyforge g = paper(12, 0, 5, 1, 5, 0, 1, 1, 1);
-        row(g, 4);
-        kept(g, MENTION, 0, 1, 2, 3);
+        Check.addRow(g, 4);
+        Check.addKept(g, MENTION, 0, 1, 2, 3);
         pageBreak(g);
-        lines(g, NOTE, -1);
+        Check.addMarked(g, NOTE, -1);
         // 8 are used; 5 have no room, so that 1 of both kinds wait
         Check.pages("both kinds wait", g, 0, 5, 0, 8, 1, 0, 7, 0, 0, 6);
         Check.figures("both kinds wait", g, 20, 32, 20, 32);
         g = paper(12, 0, 5, 1, 1, 0, 1);
-        row(g, 5);
-        kept(g, MENTION, 0, 1, 2);
+        Check.addRow(g, 5);
+        Check.addKept(g, MENTION, 0, 1, 2);
         Check.pages("one kind waits", g, 0, 4, 0, 9, 0, 0, 6);
         Check.figures("one kind waits", g, 22, 11, 22);
     }
@@ -204,28 +181,28 @@ public final class PageEdgesTest {
     /** The same for those that wait from pages ahead, and get no place at the top. */
     private static void ofItsKindThatStaysWaiting() {
         Galleyforge g = paper(8, 0, 3, 0, 2, 1, 2, 0, 1, 1, 1);
-        row(g, 5);
-        kept(g, MENTION, 0, 1, 2);
+        Check.addRow(g, 5);
+        Check.addKept(g, MENTION, 0, 1, 2);
         pageBreak(g);
-        kept(g, MENTION, 3, 4);
+        Check.addKept(g, MENTION, 3, 4);
         // 3 of 4 at the top; 2 of both kinds have no room there, so that 1 of both kinds wait
         Check.pages("both kinds wait", g, 0, 4, 0, 8, 2, 0, 5, 0, 0, 6);
         Check.figures("both kinds wait", g, 20, 32, 32, 32, 32);
         g = paper(8, 0, 3, 0, 2, 1, 1);
-        row(g, 6);
-        kept(g, MENTION, 0, 1);
+        Check.addRow(g, 6);
+        Check.addKept(g, MENTION, 0, 1);
         pageBreak(g);
-        lines(g, MENTION, 2);
+        Check.addMarked(g, MENTION, 2);
         Check.pages("one kind waits", g, 0, 3, 0, 8, 1, 0, 5, 0, 0, 2);
         Check.figures("one kind waits", g, 20, 32, 21);
     }
 
     private static void aFigureThatStandsDoesNotWait() {
         Galleyforge g = paper(12, 0, 3, 0, 2, 0, 1);
-        row(g, 11);
-        lines(g, MENTION, 0);
+        Check.addRow(g, 11);
+        Check.addMarked(g, MENTION, 0);
         pageBreak(g);
-        kept(g, MENTION, 1, 2);
+        Check.addKept(g, MENTION, 1, 2);
         Check.pages("one at the top, two of its kind at the bottom", g, 0, 2, 0, 12, 2, 0, 3 + 2 + 2 + 1);
         Check.figures("one at the top, two of its kind at the bottom", g, 20, 21, 21);
     }
@@ -233,19 +210,19 @@ public final class PageEdgesTest {
     /** "if what is used and its height are, together, not more than the paper's height". */
     private static void roomAtTheBottom() {
         Galleyforge g = paper(8, 0, 4);
-        row(g, 3);
-        lines(g, MENTION, 0);
+        Check.addRow(g, 3);
+        Check.addMarked(g, MENTION, 0);
         Check.pages("4 of 4", g, 0, 2, 0, 8);
         Check.figures("4 of 4", g, 11);
         g = paper(8, 0, 5);
-        row(g, 3);
-        lines(g, MENTION, 0);
+        Check.addRow(g, 3);
+        Check.addMarked(g, MENTION, 0);
         Check.pages("5 of 4", g, 0, 2, 0, 4, 0, 0, 5);
         Check.figures("5 of 4", g, 22);
         for (int figure = 4; figure <= 5; figure++) {
             g = paper(8, 0, figure);
             g.mark(NOTE, 2);
-            lines(g, MENTION, 0);
+            Check.addMarked(g, MENTION, 0);
             if (figure == 4) {
                 Check.pages("4 below a note", g, 0, 1, 2, 8);
             } else {
@@ -254,8 +231,8 @@ public final class PageEdgesTest {
             Check.figures(figure + " below a note", g, figure == 4 ? 11 : 22);
         }
         g = paper(6, 0, 3, 1, 1);
-        row(g, 5);
-        lines(g, MENTION, 0);
+        Check.addRow(g, 5);
+        Check.addMarked(g, MENTION, 0);
         pageBreak(g);
         Check.marked(g, Check.add(g, Galleyforge.HEADING), MENTION, 1, "0");
         Check.pages("below one at the top", g, 0, 2, 0, 6, 1, 0, 6);
@@ -265,23 +242,23 @@ public final class PageEdgesTest {
     /** "Then the figures that are mentioned in its rows are gone through in order"; "then its height is used, too". */
     private static void orderAtTheBottom() {
         Galleyforge g = paper(8, 0, 3, 0, 3);
-        kept(g, MENTION, 0, 1);
+        Check.addKept(g, MENTION, 0, 1);
         Check.pages("3 and 3 of 6", g, 0, 2, 0, 8);
         Check.figures("3 and 3 of 6", g, 11, 11);
         g = paper(8, 0, 3, 1, 4);
-        kept(g, MENTION, 0, 1);
+        Check.addKept(g, MENTION, 0, 1);
         Check.pages("3 and 4 of 6", g, 0, 2, 0, 5, 0, 0, 4);
         Check.figures("3 and 4 of 6", g, 11, 22);
         g = paper(8, 0, 3, 1, 4);
-        kept(g, MENTION, 1, 0);
+        Check.addKept(g, MENTION, 1, 0);
         Check.pages("4 and 3 of 6", g, 0, 2, 0, 6, 0, 0, 3);
         Check.figures("4 and 3 of 6", g, 22, 11);
         g = paper(8, 0, 7, 1, 6);
-        kept(g, MENTION, 0, 1);
+        Check.addKept(g, MENTION, 0, 1);
         Check.pages("7 waits, 6 of another kind does not", g, 0, 2, 0, 8, 0, 0, 7);
         Check.figures("7 waits, 6 of another kind does not", g, 22, 11);
         g = paper(8, 0, 7, 0, 6);
-        kept(g, MENTION, 0, 1);
+        Check.addKept(g, MENTION, 0, 1);
         Check.pages("7 waits, and so does 6 of its kind", g, 0, 2, 0, 2, 0, 0, 7, 0, 0, 6);
         Check.figures("7 waits, and so does 6 of its kind", g, 22, 32);
     }
@@ -289,11 +266,11 @@ public final class PageEdgesTest {
     /** "A figure waits from the page of its mention on, until it stands on a page." */
     private static void fromThePageOfItsMentionOn() {
         Galleyforge g = paper(12, 0, 2);
-        lines(g, NOTE, -1);
+        Check.addMarked(g, NOTE, -1);
         pageBreak(g);
-        lines(g, MENTION, 0);
+        Check.addMarked(g, MENTION, 0);
         pageBreak(g);
-        lines(g, NOTE, -1);
+        Check.addMarked(g, NOTE, -1);
         Check.pages("not ahead of it, not behind it", g, 0, 1, 0, 1, 1, 0, 3, 1, 0, 1);
         Check.figures("not ahead of it", g, 21);
         // the first ones take the top, one by one
@@ -305,11 +282,11 @@ public final class PageEdgesTest {
     /** "It is mentioned in the first row in which a word mentions it". */
     private static void theFirstMention() {
         Galleyforge g = paper(12, 0, 2);
-        lines(g, NOTE, -1);
+        Check.addMarked(g, NOTE, -1);
         pageBreak(g);
-        lines(g, MENTION, 0);
+        Check.addMarked(g, MENTION, 0);
         pageBreak(g);
-        lines(g, MENTION, 0);
+        Check.addMarked(g, MENTION, 0);
         Check.figures("the second page", g, 21);
         Check.marked(g, 0, MENTION, 0, "0");
         Check.figures("now the first one", g, 11);
@@ -323,7 +300,7 @@ public final class PageEdgesTest {
     /** "figures are in order by these rows, those of one row by the words". */
     private static void orderOfFigures() {
         Galleyforge g = paper(6, 0, 6, 0, 6, 0, 6, 0, 6, 0, 6);
-        kept(g, MENTION, 4, 3, 2, 1, 0);
+        Check.addKept(g, MENTION, 4, 3, 2, 1, 0);
         Check.figures("by rows", g, 62, 52, 42, 32, 22);
         g = paper(6, 0, 6, 0, 6, 0, 6, 0, 6, 0, 6);
         int heading = Check.add(g, Galleyforge.HEADING);
@@ -349,7 +326,7 @@ public final class PageEdgesTest {
     /** "Without a mention it is nowhere." */
     private static void withoutAMention() {
         Galleyforge g = paper(6, 0, 1, 1, 6);
-        int place = lines(g, MENTION, -1, 1);
+        int place = Check.addMarked(g, MENTION, -1, 1);
         Check.figures("one is mentioned", g, -1, 22);
         g.take(place, 1);
         Check.figures("none is mentioned", g, -1, -1);
@@ -381,9 +358,9 @@ public final class PageEdgesTest {
         Check.due("the next row", g.textAt(0, 7, 0), 3000);
         g = paper(6, 0, 4);
         g.mark(NOTE, 5);
-        lines(g, MENTION, 0);
+        Check.addMarked(g, MENTION, 0);
         pageBreak(g);
-        row(g, 4);
+        Check.addRow(g, 4);
         // 4 lines and the rule leave 1 line, which goes on behind the figure
         Check.pages("a line that is left", g, 100, 1, 4, 6, 0, 0, 4, 1, 1, 6);
         Check.figures("a line that is left", g, 22);

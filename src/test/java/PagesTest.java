@@ -30,22 +30,6 @@ public final class PagesTest {
         Check.due(what + ": settled", g.isSettled(0) ? 1 : 0, 1);
     }
 
-    /** Adds a paragraph whose lines have one word each, with what is marked for it; NONE for nothing. */
-    private static int addMarked(Galleyforge g, int what, int... values) {
-        int place = Check.add(g, Galleyforge.PARAGRAPH);
-        for (int value : values) {
-            g.mark(what, value);
-            Check.words(g, place, "333333");
-        }
-        return place;
-    }
-
-    private static int addKept(Galleyforge g, int what, int... values) {
-        int place = addMarked(g, what, values);
-        g.style(place, Galleyforge.KEEP, 1);
-        return place;
-    }
-
     private static void noRows() {
         Galleyforge g = Check.paper(6);
         pages("no blocks", g, 0);
@@ -100,19 +84,12 @@ public final class PagesTest {
         Check.addLines(g, 7);
         pages("three pages cost less than two", g, 2, 5, 0, 5, 5, 0, 5, 2, 0, 2);
         g = Check.paper(40);
-        addHighRow(g, 39);
+        Check.addRow(g, 39);
         Check.addLines(g, 2);
-        addHighRow(g, 39);
+        Check.addRow(g, 39);
         pages("a paragraph of two rows", g, 300, 2, 0, 40, 2, 0, 40);
         g.style(1, Galleyforge.KEEP, 1);
         pages("a paragraph of two rows that is kept", g, 1 + 38 * 38, 1, 0, 39, 2, 0, 2, 1, 0, 39);
-    }
-
-    /** Adds a table with one row, by a column of the width 5. */
-    private static void addHighRow(Galleyforge g, int height) {
-        int place = Check.add(g, Galleyforge.TABLE);
-        g.cell(place, 0, 0, 1, 5, 5 * height);
-        g.cell(place, 0, 1, 1, 60, 60);
     }
 
     private static void keptTogether() {
@@ -190,20 +167,20 @@ public final class PagesTest {
 
     private static void notes() {
         Galleyforge g = Check.paper(8);
-        addMarked(g, Galleyforge.NOTE, 3, -1, -1, -1);
+        Check.addMarked(g, Galleyforge.NOTE, 3, -1, -1, -1);
         pages("three lines", g, 0, 4, 3, 8);
         g = Check.paper(8);
-        addMarked(g, Galleyforge.NOTE, 5, -1, -1, -1);
+        Check.addMarked(g, Galleyforge.NOTE, 5, -1, -1, -1);
         pages("five lines", g, 0, 2, 5, 8, 2, 0, 2);
         g = Check.paper(8);
-        addMarked(g, Galleyforge.NOTE, 2, 3, -1, -1);
+        Check.addMarked(g, Galleyforge.NOTE, 2, 3, -1, -1);
         pages("two and three lines", g, 0, 2, 5, 8, 2, 0, 2);
         g = Check.paper(6);
-        addMarked(g, Galleyforge.NOTE, 3, 1);
+        Check.addMarked(g, Galleyforge.NOTE, 3, 1);
         // two rows would leave 4 for notes, but the first note and 2 take 5
         pages("only the last note may go on", g, 301, 1, 3, 5, 1, 1, 3);
         g = Check.paper(7);
-        addMarked(g, Galleyforge.NOTE, 3, 2);
+        Check.addMarked(g, Galleyforge.NOTE, 3, 2);
         // two rows leave 5
         pages("the last note goes on", g, 100, 2, 4, 7, 0, 1, 2);
         g = Check.paper(6);
@@ -239,12 +216,12 @@ public final class PagesTest {
         pages("lines that are left", g, 100, 1, 3, 6, 3, 2, 6, 2, 0, 2);
         g = headingWithNote();
         Check.add(g, Galleyforge.BREAK);
-        addKept(g, Galleyforge.NOTE, -1, -1, -1, -1, -1);
+        Check.addKept(g, Galleyforge.NOTE, -1, -1, -1, -1, -1);
         // five rows would leave 1, and lines that are left need 2; kept rows are parted for it
         pages("lines that are left, and kept rows", g, 10100, 1, 3, 6, 3, 2, 6, 2, 0, 2);
         g = headingWithNote();
         Check.add(g, Galleyforge.BREAK);
-        addMarked(g, Galleyforge.NOTE, 1, -1, -1);
+        Check.addMarked(g, Galleyforge.NOTE, 1, -1, -1);
         // lines that are left and 2 need 4: two rows leave 4
         pages("lines that are left ahead of a note", g, 250, 1, 3, 6, 2, 3, 6, 1, 0, 1);
     }
@@ -261,17 +238,17 @@ public final class PagesTest {
     private static void figuresAtTheBottom() {
         Galleyforge g = Check.paper(8);
         g.figure(0, 5);
-        addMarked(g, Galleyforge.MENTION, 0, -1, -1);
+        Check.addMarked(g, Galleyforge.MENTION, 0, -1, -1);
         pages("5 below 3 rows", g, 0, 3, 0, 8);
         Check.figures("5 below 3 rows", g, 11);
         g = Check.paper(8);
         g.figure(0, 4);
-        addMarked(g, Galleyforge.MENTION, 0, -1, -1, -1, -1, -1, -1, -1, -1, -1);
+        Check.addMarked(g, Galleyforge.MENTION, 0, -1, -1, -1, -1, -1, -1, -1, -1, -1);
         pages("of equal ways the fewer rows", g, 0, 4, 0, 8, 6, 0, 6);
         Check.figures("of equal ways the fewer rows", g, 11);
         g = Check.paper(8);
         g.figure(0, 2);
-        addMarked(g, Galleyforge.NOTE, 3, -1);
+        Check.addMarked(g, Galleyforge.NOTE, 3, -1);
         g.mark(Galleyforge.MENTION, 0);
         Check.words(g, 0, "0");
         pages("below the notes it has no room", g, 0, 3, 3, 7, 0, 0, 2);
@@ -281,7 +258,7 @@ public final class PagesTest {
     private static void figuresAtTheTop() {
         Galleyforge g = Check.paper(6);
         g.figure(0, 3);
-        addMarked(g, Galleyforge.MENTION, 0, -1, -1, -1, -1);
+        Check.addMarked(g, Galleyforge.MENTION, 0, -1, -1, -1, -1);
         Check.add(g, Galleyforge.BREAK);
         Check.addLines(g, 2);
         pages("3 of half 3", g, 0, 5, 0, 5, 2, 0, 5);
@@ -289,7 +266,7 @@ public final class PagesTest {
         g = Check.paper(7);
         g.figure(0, 2);
         g.figure(1, 2);
-        addKept(g, Galleyforge.MENTION, 0, 1, -1, -1, -1, -1);
+        Check.addKept(g, Galleyforge.MENTION, 0, 1, -1, -1, -1, -1);
         Check.add(g, Galleyforge.BREAK);
         Check.addLines(g, 1);
         Check.add(g, Galleyforge.BREAK);
@@ -301,7 +278,7 @@ public final class PagesTest {
     private static void figuresAlone() {
         Galleyforge g = Check.paper(6);
         g.figure(0, 4);
-        addKept(g, Galleyforge.MENTION, 0, -1, -1, -1, -1);
+        Check.addKept(g, Galleyforge.MENTION, 0, -1, -1, -1, -1);
         Check.add(g, Galleyforge.BREAK);
         Check.addLines(g, 2);
         pages("4 of half 3", g, 0, 5, 0, 5, 0, 0, 4, 2, 0, 2);
@@ -318,7 +295,7 @@ public final class PagesTest {
         g.figure(0, 4);
         g.figure(1, 2);
         g.figure(0, 40);
-        addKept(g, Galleyforge.MENTION, 1, 0, 2, -1, -1, -1);
+        Check.addKept(g, Galleyforge.MENTION, 1, 0, 2, -1, -1, -1);
         Check.add(g, Galleyforge.BREAK);
         Check.addLines(g, 1);
         Check.add(g, Galleyforge.BREAK);
@@ -333,7 +310,7 @@ public final class PagesTest {
         g.figure(0, 3);
         g.figure(1, 4);
         g.figure(0, 1);
-        addKept(g, Galleyforge.MENTION, 0, 1, 2, -1, -1, -1);
+        Check.addKept(g, Galleyforge.MENTION, 0, 1, 2, -1, -1, -1);
         pages("up to the first one that is too high", g, 0, 6, 0, 6, 0, 0, 3, 0, 0, 5);
         Check.figures("up to the first one that is too high", g, 22, 32, 32);
         g = headingWithNote();
@@ -352,7 +329,7 @@ public final class PagesTest {
         g.figure(0, 5);
         g.figure(0, 1);
         g.figure(1, 1);
-        addKept(g, Galleyforge.MENTION, 0, 1, 2, -1);
+        Check.addKept(g, Galleyforge.MENTION, 0, 1, 2, -1);
         pages("kinds at the bottom", g, 0, 4, 0, 5, 0, 0, 6);
         Check.figures("kinds at the bottom", g, 22, 22, 11);
         g = Check.paper(12);
@@ -360,7 +337,7 @@ public final class PagesTest {
         g.figure(0, 3);
         g.figure(0, 1);
         g.figure(1, 2);
-        addKept(g, Galleyforge.MENTION, 0, 1, 2, 3, -1, -1, -1, -1, -1, -1, -1, -1);
+        Check.addKept(g, Galleyforge.MENTION, 0, 1, 2, 3, -1, -1, -1, -1, -1, -1, -1, -1);
         Check.add(g, Galleyforge.BREAK);
         Check.addLines(g, 1);
         pages("kinds at the top", g, 0, 12, 0, 12, 1, 0, 7, 0, 0, 4);
@@ -369,9 +346,9 @@ public final class PagesTest {
         g.figure(0, 3);
         g.figure(0, 3);
         g.figure(0, 1);
-        addKept(g, Galleyforge.MENTION, 0, 1, -1, -1, -1, -1);
+        Check.addKept(g, Galleyforge.MENTION, 0, 1, -1, -1, -1, -1);
         Check.add(g, Galleyforge.BREAK);
-        addMarked(g, Galleyforge.MENTION, 2);
+        Check.addMarked(g, Galleyforge.MENTION, 2);
         // the second one stays waiting, so that the third one may not stand at the bottom
         pages("a figure that stays waiting", g, 0, 6, 0, 6, 1, 0, 4, 0, 0, 4);
         Check.figures("a figure that stays waiting", g, 20, 32, 32);
@@ -382,7 +359,7 @@ public final class PagesTest {
         g.figure(0, 6);
         g.figure(0, 6);
         g.figure(1, 6);
-        addMarked(g, Galleyforge.MENTION, 1, 0, 1);
+        Check.addMarked(g, Galleyforge.MENTION, 1, 0, 1);
         pages("order by mentions", g, 0, 3, 0, 3, 0, 0, 6, 0, 0, 6);
         Check.figures("order by mentions", g, 32, 22, -1);
         g = Check.paper(6);
@@ -426,7 +403,7 @@ public final class PagesTest {
         Check.add(g, Galleyforge.HEADING);
         Check.add(g, Galleyforge.HEADING);
         Check.add(g, Galleyforge.BREAK);
-        addMarked(g, Galleyforge.NOTE, 5);
+        Check.addMarked(g, Galleyforge.NOTE, 5);
         Check.addLines(g, 3);
         Check.due("33 no head", g.head(0, 1), -1);
         Check.due("33 the first one on the page", g.head(0, 2), 3);

@@ -18,7 +18,8 @@ public final class RandomRunsTest {
     private int mood;
 
     private RandomRunsTest(long seed) {
-        random = new Random(seed);
+        // the first numbers of neighbouring seeds are alike otherwise
+        random = new Random(seed * 0x9E3779B97F4A7C15L);
     }
 
     public static void main(String[] args) throws Exception {
@@ -91,6 +92,10 @@ public final class RandomRunsTest {
             String fault = fullText();
             return fault == null ? checkAll() : fault;
         }
+        if (mood == 7 && upTo(2) == 0) {
+            String fault = aboutTenPages();
+            return fault == null ? checkAll() : fault;
+        }
         String fault = null;
         if (upTo(4) > 0) fault = call("paper", 30 + upTo(upTo(2) == 0 ? 10 : 91), 6 + upTo(upTo(3) > 0 ? 5 : 35));
         for (int k = upTo(6); k > 0 && fault == null; k--) fault = call("figure", upTo(2), 1 + upTo(upTo(3) == 0 ? 40 : 6));
@@ -128,6 +133,40 @@ public final class RandomRunsTest {
             }
         }
         return fault;
+    }
+
+    /** Pages up to the eighth or so, and then labels whose pages hang on the digits of references. */
+    private String aboutTenPages() throws Exception {
+        int height = 6 + upTo(5);
+        String fault = call("paper", 30, height);
+        int figures = upTo(6);
+        for (int f = 0; f < figures && fault == null; f++) fault = call("figure", upTo(2), 1 + upTo(height));
+        int left = 5 + upTo(4);
+        for (int place = 0; place < 2 && fault == null; place++) {
+            fault = call("block", place, 3);
+            for (int row = 0; row < 4 && left > 0 && fault == null; row++, left--) {
+                fault = call("cell", place, row, 0, 1, 0, 180);
+            }
+        }
+        if (fault == null && height > 6) fault = call("block", 2, 4);
+        for (int place = blocks(); place < 12 && fault == null; place++) {
+            int kind = upTo(5) == 0 ? 1 : upTo(5) == 0 ? 2 : upTo(6) == 0 ? 4 : 0;
+            fault = call("block", place, kind);
+            if (fault == null && upTo(3) == 0) fault = call("style", place, 2, 1);
+            for (int words = upTo(7); words > 0 && kind != 4 && fault == null; words--) fault = addLabelled(place, figures);
+        }
+        return fault;
+    }
+
+    private String addLabelled(int place, int figures) throws Exception {
+        String fault = null;
+        int what = upTo(8);
+        if (what == 0) fault = call("mark", 0, 1 + upTo(5));
+        if (what == 1 && figures > 0) fault = call("mark", 1, upTo(figures));
+        if (what > 4) fault = call("mark", 2, upTo(6));
+        if (fault == null && upTo(5) < 2) return call("reference", place, other.words(place), upTo(6));
+        for (int letters = 1 + upTo(6); letters > 0 && fault == null; letters--) fault = call("spell", 3);
+        return fault == null ? call("word", place, other.words(place)) : fault;
     }
 
     private int blocks() {

@@ -256,7 +256,8 @@ public final class RowEdgesTest {
 
     /** "Cells are gone through by rising spans, ... rising rows, ... rising columns". */
     private static void inWhateverOrderTheyAreTold() {
-        int[][] cells = {cell(0, 0, 2, 0, 9), cell(1, 1, 2, 0, 11), cell(0, 1, 1, 0, 2), cell(0, 2, 1, 0, 4), cell(1, 0, 3, 0, 40)};
+        int[][] cells = {cell(0, 0, 2, 0, 9), cell(1, 1, 2, 0, 11), cell(0, 1, 1, 0, 2), cell(0, 2, 1, 0, 4),
+            cell(1, 0, 3, 0, 40)};
         // 0, 2, 4; 7 lack of 9: 4, 5, 4; 2 lack of 11: 4, 6, 5; 25 lack of 40: 9, 8, 8
         int[] due = {4 + 9, 6 + 8, 5 + 8};
         for (int turn = 0; turn < 5; turn++) {
@@ -296,7 +297,8 @@ public final class RowEdgesTest {
         widths("nothing is left over", table(30, cell(0, 0, 1, 0, 10), cell(0, 1, 1, 0, 20), cell(0, 2, 1, 0, 30)), 5, 10, 15);
         widths("1 is left over", table(30, cell(0, 0, 1, 0, 10), cell(0, 1, 1, 0, 10), cell(0, 2, 1, 0, 20)), 8, 7, 15);
         widths("2 are left over", table(30, cell(0, 0, 1, 0, 7), cell(0, 1, 1, 0, 11), cell(0, 2, 1, 0, 13)), 7, 11, 12);
-        widths("a column without a wish gets 1 more", table(30, cell(0, 0, 1, 9, 9), cell(0, 1, 1, 0, 20), cell(0, 2, 1, 0, 20)), 10, 10, 10);
+        widths("a column without a wish gets 1 more",
+                table(30, cell(0, 0, 1, 9, 9), cell(0, 1, 1, 0, 20), cell(0, 2, 1, 0, 20)), 10, 10, 10);
         widths("one column", table(30, cell(0, 0, 1, 5, 200)), 30);
         widths("one wish of three", table(30, cell(0, 1, 1, 5, 200), cell(0, 2, 1, 10, 10)), 0, 20, 10);
     }
