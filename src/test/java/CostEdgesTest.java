@@ -536,6 +536,9 @@ public final class CostEdgesTest {
         heading(g);
         // a page with one row is full, too, and 100 is to be paid for it, too
         Check.pages("two rows on the first page", g, 100, 2, 2, 6, 1, 3, 6);
+        Check.marked(g, 3, NOTE, 4, "0");
+        // 4 lines behind all rows are one page, as 1 line would be
+        Check.pages("more lines behind", g, 200, 2, 2, 6, 1, 3, 6, 0, 4, 5);
         g = paper(6, 0, 5);
         Check.addKept(g, MENTION, 0);
         heading(g);
