@@ -56,8 +56,8 @@ public final class Galleyforge {
     private static final int HYPHEN_WIDTH = 2;
 
     private static final int FIRST_STATES = 512;
-    /** Far above what 512 calls can bring about; see NOTES.md. */
-    private static final int MOST_STATES = 130000;
+    /** Far above what 512 calls can bring about, and not half of the room; see NOTES.md. */
+    private static final int MOST_STATES = 260000;
 
     /** The digits of all labels together are one number with two bits for each label: no label's page has four digits. */
     private static final int DIGITS_BITS = 2;
